@@ -151,6 +151,7 @@ public final class ActsTest {
         CHECK.is("has(5): shut in it alone", x.has(5), 0);
         CHECK.is("has(8): one act", x.has(8), 1);
         CHECK.is("smoke 0", CHECK.house(HOUSE, 11).chance(30), 0);
+        CHECK.is("one stair", CHECK.house("room a;room b;stair a to b wide 1;smoke 100;", 4).chance(5), 5);
         CHECK.is("no stairs, no smoke", CHECK.house("room a;smoke 100;", 2).chance(30), 0);
     }
 

@@ -54,6 +54,11 @@ public final class ChoiceTest {
         FireDrill z = CHECK.house("room l;hears 0;part pa post 1;part pb post 2;part pc post 3;part pd post 4;part pe post 1;"
             + onLawn(3, 4), 9);
         postsAre(z, 1, 1, 2, 3, 0, 4);
+        // Just as many minutes as it takes to sign.
+        FireDrill just = CHECK.house("room l;part pa post 0;part pb post 9;part pc post 1;signs 9;" + onLawn(0, 1), 7);
+        postsAre(just, 1, 0, 2, 1);
+        just.post(1, 0);
+        CHECK.is("drills(2) of just as many minutes", just.drills(2), 2);
     }
 
     private static void wider() {
@@ -81,6 +86,13 @@ public final class ChoiceTest {
             wide.append("clerk c").append((char) ('a' + k)).append(" in a of p pace 1 bag 0;");
         }
         CHECK.is("wider() than 4", CHECK.house(wide.toString(), 9).wider(), 0);
+        // Four by a stair of two: three at once are no sooner out, four would be.
+        CHECK.is("wider() by one alone", CHECK.house("room l;room a;stair a to l wide 2;part p post 1;clerk x in a of p pace 1 bag 0;"
+            + "clerk y in a of p pace 1 bag 0;clerk z in a of p pace 1 bag 0;clerk w in a of p pace 1 bag 0;", 8).wider(), -1);
+        // Two wait at the first stair, nobody at the second.
+        FireDrill both = CHECK.house("room l;room a;room b;stair b to l wide 1;stair a to l wide 1;part p post 1;"
+            + "clerk x in b of p pace 1 bag 0;clerk y in b of p pace 1 bag 0;clerk z in a of p pace 1 bag 0;", 9);
+        CHECK.is("wider(): the first stays, the second is no sooner", both.wider(), 0);
         FireDrill never = CHECK.house(rooms + clerks + "turns minute=1;", 10);
         CHECK.is("empty() never", never.empty(), 99);
         CHECK.is("wider()", never.wider(), 0);
@@ -125,6 +137,10 @@ public final class ChoiceTest {
         CHECK.is("dear: two of the greatest", big.dear(0, 1), 2000000);
         FireDrill less = CHECK.house(house + "dear bag-long-other*2;", 8);
         CHECK.is("dear below 0", less.dear(1, 0), -19);
+        FireDrill inside = CHECK.house("room l;room a;part p post 0;clerk x in a of p pace 3 bag 0;clerk y in a of p pace 2 bag 0;"
+            + "dear pace*100+drill;", 6);
+        inside.drills(4);
+        CHECK.is("dear of two who never come", inside.dear(0, 1), 508);
         FireDrill unlike = CHECK.house(house + "dear max(bag-other,0)*5;", 8);
         CHECK.is("dear of the one and the other", unlike.dear(0, 2), 10);
     }
@@ -151,6 +167,11 @@ public final class ChoiceTest {
         // Below 0 nobody is better alone.
         couplesAre(CHECK.house(part + onLawn(0, 0) + "dear 0-1;", 7), 0, -1, -1);
         couplesAre(CHECK.house("room l;", 1), 0);
+        FireDrill unasked = CHECK.house(part + onLawn(0, 0), 6);
+        CHECK.is("with(0) ahead of couples()", unasked.with(0), 1);
+        // They meet but once, in minute 1: both turn back in the next.
+        couplesAre(CHECK.house(part + "stair l to a wide 1;room b;stair a to b wide 1;" + onLawn(0)
+            + "clerk w in b of pa pace 1 bag 0;turns minute=2;", 10), 2, 1, 0);
         couplesAre(CHECK.house(part + onLawn(0), 5), 0, -1);
         couplesAre(CHECK.house(part + onLawn(0, 0, 0, 0, 0, 0, 0, 0), 12), 72, 1, 0, 3, 2, 5, 4, 7, 6);
     }

@@ -80,6 +80,10 @@ public final class DrillTest {
         x.shut(3, 1);
         row("by numbers, shut", x, 0, 2, 0);
         row("by numbers, shut", x, 1, 3, 2, 0);
+        FireDrill w = CHECK.house("room l;room b;room c;room d;stair d to b wide 1;stair d to c wide 1;stair c to l wide 1;"
+            + "stair b to l wide 1;part p post 1;clerk x in d of p pace 1 bag 0;clerk y in d of p pace 1 bag 0;", 11);
+        row("by numbers, told first", w, 0, 1, 0);
+        row("by numbers, told first", w, 1, 2, 0);
         // A way round that is not nearer is not gone: room c is as far as b.
         FireDrill y = CHECK.house("room l;room b;room c;stair b to l wide 1;stair c to l wide 1;stair b to c wide 4;"
             + "part p post 1;clerk x in b of p pace 3 bag 0;clerk y in b of p pace 3 bag 0;", 9);
@@ -225,6 +229,13 @@ public final class DrillTest {
         holds("0001=1", true);
         holds("all", true);
         holds("not all", false);
+        holds("not 1<2", false);
+        holds("not 2>1", false);
+        holds("not 1=1", false);
+        holds("1<2 and 2=2", true);
+        holds("2>1 and 2=2", true);
+        holds("not[1<2 and 2>1]", false);
+        holds("not[1<2 or 2=1]", false);
         holds("not not all", true);
         holds("1=2 or 1=1", true);
         holds("1=2 or 1=3", false);

@@ -233,6 +233,11 @@ public final class FaultTest {
         CHECK.houseFault("dear ((((((max(1,2)))))));", 4, 14);
         CHECK.houseFault("dear max(1,((((((2))))));", 4, 16);
         CHECK.houseFault("dear ((((((max 1", 1, 15);
+        CHECK.houseFault("turns all and not not not not not not not all;", 4, 38);
+        CHECK.houseFault("turns all or not not not not not not not all;", 4, 37);
+        CHECK.houseFault("turns 1<(((((((2;", 4, 14);
+        CHECK.houseFault("dear 1*(((((((2;", 4, 13);
+        CHECK.houseFault("dear 1+(((((((2;", 4, 13);
     }
 
     private static void tooMany() {

@@ -16,6 +16,7 @@ public final class HouseTest {
         allStays();
         limits();
         lastOneCounts();
+        behindOthers();
         CHECK.finish();
     }
 
@@ -246,6 +247,34 @@ public final class HouseTest {
         String sum = "dear " + "1+".repeat(796) + "10;";
         CHECK.is("length", sum.length(), 1600);
         CHECK.house(sum, 1);
+    }
+
+    /** Nothing of an earlier house shows in a later one. */
+    private static void behindOthers() {
+        FireDrill x = CHECK.house("room a;room b;room c;stair a to b wide 1;part p post 1;part q post 2;clerk x in a of p pace 1 bag 1;"
+            + "clerk y in a of q pace 1 bag 1;turns all;dear 7;hears 9;signs 9;smoke 100;", 13);
+        String plain = "room l;room m;stair m to l wide 1;part s post 0;part t post 4;clerk g in l of s pace 1 bag 0;"
+            + "clerk h in l of s pace 1 bag 0;clerk i in l of t pace 1 bag 0;";
+        for (int k = 0; k < 3; k++) {
+            Check.tape(x, plain);
+            CHECK.is("house() behind others", x.house(), 8);
+            int[] due = {2, 1, 2, 3, 0, 0, 0, 0, 0};
+            for (int what = 0; what < due.length; what++) {
+                CHECK.is("has(" + what + ") behind others", x.has(what), due[what]);
+            }
+            CHECK.is("turns behind others", x.back(0), -1);
+            CHECK.is("dear behind others", x.dear(0, 1), 18);
+            CHECK.is("hears behind others", x.meets(0, 2), 0);
+            CHECK.is("smoke behind others", x.chance(9), 0);
+            CHECK.is("signed(0, 1) behind others", x.signed(0, 1), 9);
+            CHECK.is("shut(0, 1) behind others", x.shut(0, 1), true);
+            CHECK.is("post(0, 7) behind others", x.post(0, 7), true);
+        }
+        Check.tape(x, "room l;");
+        CHECK.is("house()", x.house(), 1);
+        CHECK.is("far(1)", x.far(1), -1);
+        CHECK.is("wardens()", x.wardens(), 0);
+        CHECK.is("signs()", x.signs(), 0);
     }
 
     private static void lastOneCounts() {

@@ -39,6 +39,8 @@ public final class QuestionTest {
         CHECK.answer(x, "most 0-bag-1", -1);
         CHECK.answer(x, "least 0-bag-1", -10);
         CHECK.answer(x, "total 0-bag", -22);
+        CHECK.answer(x, "most 0-number-1", -1);
+        CHECK.answer(x, "least number+1", 1);
         CHECK.answer(x, " \nfirst\nnot [ bag = 4 ] \n", 1);
         CHECK.answer(x, "total(bag)", 22);
         CHECK.answer(x, "total 9999*9999", 5000000);

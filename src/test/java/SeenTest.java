@@ -118,6 +118,9 @@ public final class SeenTest {
         see(x, 1, 3, 0);
         CHECK.is("whom(0) without any", x.whom(0), -1);
         CHECK.is("whom(1) without any", x.whom(1), -1);
+        FireDrill bare = CHECK.house("room l;part p post 0;clerk x in l of p pace 1 bag 0;", 3);
+        CHECK.is("whom(0) with none alone", bare.whom(0), 0);
+        CHECK.is("whom(1) with none alone", bare.whom(1), 1);
         FireDrill nobody = CHECK.house("room l;room a;stair a to l wide 1;", 3);
         CHECK.is("shuts(0) without clerks", nobody.shuts(0), 1);
         CHECK.is("shuts(1) without clerks", nobody.shuts(1), 1);
