@@ -468,7 +468,7 @@ public final class FireDrill {
     private int holdDrills(int n) {
         int signings = 0;
         for (int k = 0; k < n && k < MOST_AT_ONCE; k++) {
-            runThisDrill();
+            drill.run(house, now, NONE, NONE);
             signings += now.addDrill(house, drill);
         }
         return signings;
@@ -559,7 +559,7 @@ public final class FireDrill {
         int kind;
         int start;
         int after;
-        int takenAt;
+        int nameAt;
         int number;
         int name;
         int fault;
@@ -647,7 +647,7 @@ public final class FireDrill {
         }
 
         boolean takeWord(String word) {
-            if (!isWord(word)) {
+            if (placeIn(word) != 0) {
                 return fail(1, start);
             }
             step();
@@ -676,7 +676,6 @@ public final class FireDrill {
             if (number < least || number > most) {
                 return fail(2, start);
             }
-            takenAt = start;
             step();
             return true;
         }
@@ -695,7 +694,7 @@ public final class FireDrill {
             for (int k = start; k < after; k++) {
                 name |= bytes[k] - 'a' + 1 << LETTER_BITS * (k - start);
             }
-            takenAt = start;
+            nameAt = start;
             step();
             return true;
         }
@@ -1132,7 +1131,7 @@ public final class FireDrill {
             if (!text.takeName()) {
                 return false;
             }
-            return !into.isNamed(text.name) || text.fail(3, text.takenAt);
+            return !into.isNamed(text.name) || text.fail(3, text.nameAt);
         }
 
         /** The number of a room or section that is told already; NONE with a fault. */
@@ -1142,7 +1141,7 @@ public final class FireDrill {
             }
             int found = House.find(names, count, text.name);
             if (found == NONE) {
-                text.fail(3, text.takenAt);
+                text.fail(3, text.nameAt);
             }
             return found;
         }
@@ -1170,7 +1169,7 @@ public final class FireDrill {
                 return false;
             }
             if (one == other || into.hasStair(one, other)) {
-                return text.fail(3, text.takenAt);
+                return text.fail(3, text.nameAt);
             }
             if (!takeSetting("wide", 1, 4) || into.stairs >= STAIRS) {
                 return false;
@@ -1565,14 +1564,19 @@ public final class FireDrill {
             return found;
         }
 
+        /** Also for clerks that there are not: a question may ask for them, and an earlier house may have had them. */
         private void countMeetings(House house, State state) {
-            for (int one = 0; one < house.clerks; one++) {
-                int post = state.posts[house.clerkSection[one]];
-                for (int other = 0; other < house.clerks; other++) {
-                    int apart = Math.abs(post - state.posts[house.clerkSection[other]]);
-                    met[one][other] = apart <= house.hears ? together[one][other] : 0;
+            for (int one = 0; one < CLERKS; one++) {
+                for (int other = 0; other < CLERKS; other++) {
+                    boolean hear = one < house.clerks && other < house.clerks
+                        && apart(house, state, one, other) <= house.hears;
+                    met[one][other] = hear ? together[one][other] : 0;
                 }
             }
+        }
+
+        private static int apart(House house, State state, int one, int other) {
+            return Math.abs(state.posts[house.clerkSection[one]] - state.posts[house.clerkSection[other]]);
         }
 
         int countSigning(House house) {

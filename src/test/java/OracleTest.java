@@ -19,10 +19,17 @@ public final class OracleTest {
     private static final int ACTS = 12;
 
     public static void main(String[] args) {
+        FireDrill x = new FireDrill();
+        long drawn = 1;
         for (int seed = 1; seed <= HOUSES; seed++) {
             Random random = new Random(seed);
             Model model = new Model(random);
-            FireDrill x = new FireDrill();
+            // Mostly one object for several houses: nothing of the one may show in the next.
+            if (seed % 5 == 0) {
+                x = new FireDrill();
+                drawn = 1;
+            }
+            model.seed = drawn;
             Check.tape(x, model.text);
             CHECK.is("house() " + model.text, x.house(), model.statements);
             compare(model, x, random, "seed " + seed + " at first: ");
@@ -30,13 +37,14 @@ public final class OracleTest {
                 String act = act(model, x, random);
                 compare(model, x, random, "seed " + seed + " act " + k + " " + act + ": ");
             }
+            drawn = model.seed;
         }
         CHECK.finish();
     }
 
     private static String act(Model m, FireDrill x, Random random) {
         int n = 1 + random.nextInt(4);
-        switch (random.nextInt(7)) {
+        switch (random.nextInt(8)) {
             case 0: {
                 int section = random.nextInt(6);
                 int post = random.nextInt(21);
@@ -75,6 +83,14 @@ public final class OracleTest {
                 CHECK.is("seed", x.seed(seed), seed >= 0);
                 m.seed = seed >= 0 ? seed : m.seed;
                 return "seed";
+            }
+            case 6: {
+                // A house with a fault at its end leaves all as it was.
+                String other = new Model(random).text;
+                Check.tape(x, other.substring(0, other.length() - 1));
+                CHECK.is("house() with a fault", x.house(), -1);
+                CHECK.is("fault(1)", x.fault(1), other.length() - 1);
+                return "fault";
             }
             default:
                 m.see(random, x);

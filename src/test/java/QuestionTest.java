@@ -84,6 +84,11 @@ public final class QuestionTest {
         CHECK.answer(x, "total meets max(0,3)", 18);
         CHECK.answer(x, "total meets bag", 9);
         CHECK.answer(x, "total meets(pace-1)", 0 + 0 + 0 + 9 + 0);
+        // Clerks of an earlier house are none any more.
+        Check.tape(x, "room l;part p post 0;clerk x in l of p pace 1 bag 0;clerk y in l of p pace 1 bag 0;");
+        CHECK.is("house()", x.house(), 4);
+        CHECK.answer(x, "total meets 3", 0);
+        CHECK.answer(x, "total meets 1", 9);
     }
 
     private static void arithmetic() {
