@@ -1,3 +1,7 @@
+import java.util.Map;
+import java.util.function.Supplier;
+import java.util.function.ToLongFunction;
+
 /** What the tests share: putting texts on the tape, and counting answers that are not due. */
 final class Check {
     private final String name;
@@ -51,6 +55,40 @@ final class Check {
         is("ask() of " + question, x.ask(), FireDrill.NOTHING);
         is("fault(0) of " + question, x.fault(0), fault);
         is("fault(1) of " + question, x.fault(1), place);
+    }
+
+    /** Two objects tell the same of all. */
+    void same(String what, FireDrill x, FireDrill twin) {
+        Map<String, Long> due = Picture.of(twin).answers;
+        Map<String, Long> got = Picture.of(x).answers;
+        is(what + ": as many answers", got.size(), due.size());
+        for (Map.Entry<String, Long> answer : due.entrySet()) {
+            is(what + ": " + answer.getKey(), got.getOrDefault(answer.getKey(), Long.MIN_VALUE), answer.getValue());
+        }
+    }
+
+    /**
+     * A call is refused: it answers so, it is counted under its kind (-1: under none), and in all else the object is as
+     * a twin that was not called: what it tells, what is undone one by one, and what the seed draws.
+     */
+    void refused(String what, Supplier<FireDrill> made, int kind, ToLongFunction<FireDrill> call, long due) {
+        FireDrill x = made.get();
+        FireDrill twin = made.get();
+        is(what, call.applyAsLong(x), due);
+        for (int k = 0; k <= 5; k++) {
+            is(what + ": status(" + k + ")", x.status(k), twin.status(k) + (k == kind ? 1 : 0));
+        }
+        is(what + ": on the tape", x.feed(0, 0, 0, 0, 0), twin.feed(0, 0, 0, 0, 0));
+        same(what, x, twin);
+        is(what + ": drawn", x.chance(9), twin.chance(9));
+        for (int k = 0; k <= 21; k++) {
+            is(what + ": undo() " + k, x.undo(), twin.undo());
+            for (int n = 4; n <= 6; n++) {
+                is(what + ": undone " + k + ", has(" + n + ")", x.has(n), twin.has(n));
+            }
+            is(what + ": undone " + k + ", section(0, 0)", x.section(0, 0), twin.section(0, 0));
+            is(what + ": undone " + k + ", section(1, 0)", x.section(1, 0), twin.section(1, 0));
+        }
     }
 
     static void tape(FireDrill x, String text) {
