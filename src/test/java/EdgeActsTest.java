@@ -16,6 +16,7 @@ public final class EdgeActsTest {
         drillsTo999();
         drillsSigned9999AtMost();
         chanceFromOneToThirty();
+        chanceByStairsAsWideAsTold();
         chanceThatCannotBe();
         chanceTo999();
         smokeBelowItsNumber();
@@ -213,6 +214,13 @@ public final class EdgeActsTest {
             CHECK.is("chance(" + n + ") of smoke 0", y.chance(n), 0);
             CHECK.is("has(6)", y.has(6), n);
         }
+    }
+
+    private static void chanceByStairsAsWideAsTold() {
+        FireDrill x = made(Texts.rooms(2) + Texts.way(1, 1) + Texts.parts(0) + Texts.clerks(1, 0, 1, 1) + "signs 9;");
+        CHECK.is("chance(3)", x.chance(3), 0);
+        CHECK.is("signed(0, 1): nine minutes", x.signed(0, 1), 3);
+        CHECK.is("signed(0, 2): he waited one", x.signed(0, 2), 0);
     }
 
     private static void chanceThatCannotBe() {

@@ -7,6 +7,8 @@ public final class EdgeChoiceTest {
         postsOfFewSections();
         postsOfLikeRowsTheFirst();
         postsEachToOne();
+        postsOfJustAsManyMinutes();
+        postsOfAsManyAsCanBe();
         postsAsTheyAreNow();
         postsOfNoneSuch();
         widerOnlyIfSooner();
@@ -14,12 +16,14 @@ public final class EdgeChoiceTest {
         widerOfLikeOnesTheFirst();
         widerNotShut();
         widerByOneMore();
+        widerOfTen();
         wardensOfNoStairs();
         wardensOfLikeOnesTheLeastBits();
         wardensOfStairsNotShut();
         wardensOfTheLawnToo();
         dearOfTheOneAndTheOther();
         dearByThisDrill();
+        wordsOfDear();
         dearOfNoneSuchOrOne();
         couplesOfFew();
         couplesWhoMeet();
@@ -79,6 +83,21 @@ public final class EdgeChoiceTest {
         // Two clerks of one section count more: they sign wherever it stands.
         postsAre("two of one", made(lawn(0, 9, 1) + Texts.onLawn(0, 0, 1) + "hears 1;"), 3, 0, 2, 1);
         postsAre("the greater ones together", made(lawn(0, 1, 9) + Texts.onLawn(0, 1, 1, 2, 2) + "hears 1;"), 6, 2, 0, 1);
+    }
+
+    private static void postsOfJustAsManyMinutes() {
+        String text = Texts.rooms(2) + Texts.way(1, 1) + Texts.parts(0, 9, 1) + Texts.clerk(0, 1, 0, 1, 0) + Texts.clerk(1, 1, 1, 1, 0) + "hears 1;";
+        // They come in minutes 0 and 1: eight minutes together, wherever they stand.
+        postsAre("eight of eight", made(text + "signs 8;"), 1, 0, 2, 1);
+        postsAre("eight of nine", made(text + "signs 9;"), 0, 0, 1, 2);
+    }
+
+    private static void postsOfAsManyAsCanBe() {
+        FireDrill x = made(lawn(0, 4, 8, 12, 16) + Texts.onLawn(0, 1, 2, 3, 4, 0, 1, 2) + "hears 4;");
+        // Three sections of two, two of one: those of one at the ends.
+        postsAre("eight clerks of five sections", x, 3 + 2 + 4 + 4 + 2, 1, 2, 3, 0, 4);
+        FireDrill y = made(lawn(0, 4, 8, 12, 16) + Texts.onLawn(4, 4, 4, 4, 0, 0, 0, 0) + "hears 4;");
+        postsAre("eight clerks of the outer two", y, 28, 0, 2, 3, 4, 1);
     }
 
     private static void postsAsTheyAreNow() {
@@ -181,6 +200,12 @@ public final class EdgeChoiceTest {
         CHECK.is("empty()", x.empty(), 1);
     }
 
+    private static void widerOfTen() {
+        String text = Texts.rooms(8) + Texts.way(7, 2) + "stair rh to ra wide 2;stair rg to ra wide 2;stair rf to ra wide 1;" + Texts.parts(0);
+        CHECK.is("nobody", made(text).wider(), -1);
+        CHECK.is("two by the tenth", made(text + Texts.clerks(1, 5, 5)).wider(), 9);
+    }
+
     // III: "WARDENS are the fewest ROOMS (also the LAWN) of which each STAIR that is not SHUT touches one"; 21
 
     private static void wardensOfNoStairs() {
@@ -254,6 +279,24 @@ public final class EdgeChoiceTest {
         CHECK.is("drill behind thirty", y.dear(0, 1), 60);
     }
 
+    // I: "Of a CLERK pace, what he carries; how many DRILLS were ahead; .. of the other one what he carries; how many MINUTES they MEET"
+
+    private static void wordsOfDear() {
+        String two = Texts.rooms(2) + Texts.way(1, 2) + Texts.parts(0) + Texts.clerk(0, 1, 0, 2, 7) + Texts.clerk(1, 1, 0, 3, 9);
+        String[] sums = {"pace", "bag", "other", "long", "drill", "pace*100", "bag*other", "pace*10+other", "bag*100-other"};
+        long[] due = {5, 16, 16, 18, 0, 500, 126, 50 + 16, 1600 - 16};
+        for (int k = 0; k < sums.length; k++) {
+            CHECK.is("dear " + sums[k], made(two + "dear " + sums[k] + ";").dear(0, 1), due[k]);
+        }
+        // Also of two who are inside all the time.
+        for (String sum : new String[] {"pace", "drill", "bag", "long"}) {
+            FireDrill x = made(two + "dear " + sum + ";");
+            x.shut(0, 1);
+            x.drills(4);
+            CHECK.is("dear " + sum + " of two inside", x.dear(0, 1), sum.equals("pace") ? 5 : sum.equals("drill") ? 8 : sum.equals("bag") ? 16 : 0);
+        }
+    }
+
     private static void dearOfNoneSuchOrOne() {
         FireDrill x = made(lawn(0) + Texts.onLawn(0, 0));
         long none = FireDrill.NOTHING;
@@ -307,6 +350,8 @@ public final class EdgeChoiceTest {
         // 1 with 2 is dearest, but 0 with 1 and 2 with 3 are more together.
         String rows = lawn(0, 3, 6, 9) + Texts.onLawn(0, 1, 2, 3);
         couplesAre("two pairs", made(rows + "dear 10-(bag+other-3)*(bag+other-3);"), 24, 1, 0, 3, 2);
+        couplesAre("crosswise", made(lawn(0, 9) + Texts.onLawn(0, 1, 0, 1) + "dear 5;"), 20, 2, 3, 0, 1);
+        couplesAre("one within the other", made(lawn(0, 9) + Texts.onLawn(0, 1, 1, 0) + "dear 5;"), 20, 3, 2, 1, 0);
         couplesAre("the one in the middle", made(rows + "dear 10-4*(bag+other-3)*(bag+other-3);"), 20, -1, 2, 1, -1);
     }
 

@@ -9,6 +9,7 @@ public final class EdgeDrillTest {
         fullForThoseOfAnotherPaceToo();
         noFurtherIfAllAreFull();
         firstByNumbersThatIsNotFull();
+        firstByNumbersHoweverTold();
         neverToARoomNotNearer();
         paceFromOneToThree();
         lawnNotReached();
@@ -20,6 +21,7 @@ public final class EdgeDrillTest {
         turnedBackComesNoMore();
         turnedBackIsNotInTheCrowd();
         crowdOfOthersJustThen();
+        wordsOfTurns();
         noFurtherApartThanHears();
         signsAtItsBound();
         signsOnceInADrill();
@@ -114,6 +116,20 @@ public final class EdgeDrillTest {
         CHECK.is("far(2)", x.far(2), 3);
         row("first, two shut", x, 0, 3, 0);
         row("second, two shut", x, 1, 4, 3, 0);
+    }
+
+    private static void firstByNumbersHoweverTold() {
+        String[] orders = {"bcd", "bdc", "cbd", "cdb", "dbc", "dcb"};
+        for (String order : orders) {
+            StringBuilder text = new StringBuilder(Texts.rooms(5) + Texts.stairs(3));
+            for (char room : order.toCharArray()) {
+                text.append("stair re to r").append(room).append(" wide 1;");
+            }
+            FireDrill x = made(text + Texts.parts(0) + Texts.clerks(1, 4, 4, 4, 4));
+            for (int clerk = 0; clerk < 4; clerk++) {
+                CHECK.is(order + ": where(" + clerk + ", 0)", x.where(clerk, 0), clerk < 3 ? clerk + 1 : 4);
+            }
+        }
     }
 
     // II: "each to a ROOM nearer to the LAWN by one"
@@ -265,6 +281,22 @@ public final class EdgeDrillTest {
         CHECK.is("back(1): the first came, the third not yet", y.back(1), 0);
         FireDrill alone = made(Texts.rooms(1) + Texts.parts(0) + Texts.clerks(1, 0) + "turns crowd>0;");
         CHECK.is("he is no other", alone.back(0), -1);
+    }
+
+    // I: "Of a CLERK pace, what he carries; how many DRILLS were ahead; the MINUTE; .."
+
+    private static void wordsOfTurns() {
+        String two = Texts.rooms(1) + Texts.parts(0) + Texts.clerk(0, 0, 0, 2, 7) + Texts.clerk(1, 0, 0, 3, 9);
+        String[] tests = {"pace=2", "pace=3", "bag=7", "bag=9", "minute=pace", "minute=bag-1", "drill=0", "drill=1", "crowd=1 and pace=3"};
+        int[][] due = {{0, -1}, {-1, 0}, {0, -1}, {-1, 0}, {2, 3}, {6, 8}, {0, 0}, {-1, -1}, {-1, 0}};
+        for (int k = 0; k < tests.length; k++) {
+            FireDrill x = made(two + "turns " + tests[k] + ";");
+            CHECK.is(tests[k] + ": back(0)", x.back(0), due[k][0]);
+            CHECK.is(tests[k] + ": back(1)", x.back(1), due[k][1]);
+        }
+        FireDrill y = made(two + "turns drill=1;");
+        y.drills(1);
+        CHECK.is("drill=1 behind one: back(0)", y.back(0), 0);
     }
 
     // II: "their POSTS are no further apart than hears"

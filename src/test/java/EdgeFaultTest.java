@@ -20,6 +20,8 @@ public final class EdgeFaultTest {
         blanksBetweenWordsAndNumbers();
         otherBytesAreNoBlanks();
         wordsWholeAtTheirFirstByte();
+        everyLetterOfAWordCounts();
+        everyWordIsAsked();
         endsTooSoonAtItsLength();
         everyPlaceAsksForItsOwn();
         sixOpenAtOnce();
@@ -261,6 +263,55 @@ public final class EdgeFaultTest {
         CHECK.houseFault("dear longer;", 1, 5);
     }
 
+    private static final String HEAD = "room a;room b;part p post 0;";
+    private static final String[] STATEMENTS = {"room x ;", "stair a to b wide 1 ;", "part q post 1 ;", "clerk c in a of p pace 1 bag 1 ;",
+        "turns all ;", "turns 1 < 2 ;", "turns not [ all or all and all ] ;", "turns pace + bag - drill < minute / crowd ;",
+        "dear min ( 1 , 2 ) + 3 * max ( pace , other - long ) ;", "hears 1 ;", "signs 1 ;", "smoke 1 ;"};
+
+    private static boolean isOwn(String word) {
+        return java.util.Arrays.asList(OWN).contains(word);
+    }
+
+    private static void everyLetterOfAWordCounts() {
+        for (String statement : STATEMENTS) {
+            int at = 0;
+            for (String word : statement.split(" ")) {
+                for (int k = 0; isOwn(word) && k < word.length(); k++) {
+                    String other = word.substring(0, k) + "z" + word.substring(k + 1);
+                    behind(HEAD, statement.substring(0, at) + other + statement.substring(at + word.length()), 1, at);
+                }
+                at += word.length() + 1;
+            }
+        }
+    }
+
+    /** A statement without one of its words is at fault at what stands in that one's place. */
+    private static void everyWordIsAsked() {
+        String[] whole = {"room x ;", "stair a to b wide 1 ;", "part q post 1 ;", "clerk c in a of p pace 1 bag 1 ;", "hears 1 ;", "signs 1 ;",
+            "smoke 1 ;", "dear min ( 1 , 2 ) ;", "turns 1 < 2 ;"};
+        for (String statement : whole) {
+            int at = 0;
+            for (String word : statement.split(" ")) {
+                String rest = statement.substring(Math.min(statement.length(), at + word.length() + 1));
+                boolean right = word.equals("min");
+                if (!right) {
+                    behind(HEAD, statement.substring(0, at) + rest, 1, at);
+                }
+                at += word.length() + 1;
+            }
+        }
+        CHECK.houseFault("dear (1,2);", 1, 7);
+        // Nor may a word go with what it brings.
+        behind(HEAD, "stair a wide 1;", 1, 8);
+        behind(HEAD, "stair a to b;", 1, 12);
+        behind(HEAD, "part q;", 1, 6);
+        behind(HEAD, "clerk c of p pace 1 bag 1;", 1, 8);
+        behind(HEAD, "clerk c in a pace 1 bag 1;", 1, 13);
+        behind(HEAD, "clerk c in a of p bag 1;", 1, 18);
+        behind(HEAD, "clerk c in a of p pace 1;", 1, 24);
+        behind(HEAD, "clerk c;", 1, 7);
+    }
+
     private static void endsTooSoonAtItsLength() {
         CHECK.houseFault("room", 1, 4);
         CHECK.houseFault("room ", 1, 5);
@@ -283,12 +334,9 @@ public final class EdgeFaultTest {
 
     /** Each place of a statement takes what is asked there alone; the fault is at what stands there. */
     private static void everyPlaceAsksForItsOwn() {
-        String head = "room a;room b;part p post 0;";
-        String[] statements = {"room x ;", "stair a to b wide 1 ;", "part q post 1 ;", "clerk c in a of p pace 1 bag 1 ;", "turns all ;",
-            "turns 1 < 2 ;", "turns not [ all or all and all ] ;", "dear min ( 1 , 2 ) + 3 * ( pace ) ;", "hears 1 ;", "signs 1 ;", "smoke 1 ;"};
         String[] wrong = {"#", "}", "wide", "{", "`", ":", "@", ".", "_"};
-        for (String statement : statements) {
-            CHECK.house(head + statement, 4);
+        for (String statement : STATEMENTS) {
+            CHECK.house(HEAD + statement, 4);
             String[] words = statement.split(" ");
             int at = 0;
             for (int k = 0; k < words.length; k++) {
@@ -296,7 +344,7 @@ public final class EdgeFaultTest {
                     boolean due = words[k].equals(sign);
                     String text = statement.substring(0, at) + sign + statement.substring(at + words[k].length());
                     if (!due) {
-                        behind(head, text, 1, at);
+                        behind(HEAD, text, 1, at);
                     }
                 }
                 at += words[k].length() + 1;

@@ -1,6 +1,8 @@
 /** Promise 4 and the limits of part I, bound by bound: how much a house's text may hold, and what a house changes. */
 public final class EdgeHouseTextTest {
     private static final Check CHECK = new Check("EdgeHouseTextTest");
+    /** It becomes 1250496027, which draws 19539000 modulo 100. */
+    private static final int DRAWS_ZERO = 42;
     private static final String MANY = Texts.rooms(8) + Texts.stairs(10) + Texts.parts(0, 5, 10, 15, 20)
         + Texts.clerks(1, 0, 1, 2, 3, 4, 5, 6, 7);
 
@@ -23,6 +25,7 @@ public final class EdgeHouseTextTest {
         faultLeavesAll();
         faultTakesTheTape();
         houseMakesAllAsAtFirst();
+        houseBehindHouses();
         houseLeavesTheSeed();
         houseTakesTheTape();
         CHECK.finish();
@@ -51,6 +54,8 @@ public final class EdgeHouseTextTest {
         CHECK.house("signs 1;".repeat(79), 79);
         CHECK.house("signs 1;".repeat(80), 80);
         CHECK.house("signs 1;".repeat(80) + "\n \n ", 80);
+        CHECK.house("hears 1;".repeat(80), 80);
+        CHECK.house("smoke 1;".repeat(80), 80);
         CHECK.house(MANY + "smoke 1;".repeat(49), 80);
         behind("signs 1;".repeat(80), "signs 1;", 5, 0);
         behind(MANY + "smoke 1;".repeat(49), "\n smoke 1;", 5, 2);
@@ -267,7 +272,13 @@ public final class EdgeHouseTextTest {
         CHECK.is("meets(1, 2)", x.meets(1, 2), 1);
         CHECK.is("signs 2 without: one pair met twice", x.signs(), 1);
         CHECK.is("signs 1", CHECK.house(late + "signs 1;", 20).signs(), 3);
-        CHECK.is("smoke 0 without", CHECK.house(Texts.rooms(2) + Texts.way(1, 1), 3).chance(30), 0);
+        // The first draw is 0: not below 0, but below 1.
+        FireDrill none = CHECK.house(Texts.rooms(2) + Texts.way(1, 1), 3);
+        none.seed(DRAWS_ZERO);
+        CHECK.is("smoke 0 without", none.chance(30), 0);
+        FireDrill least = CHECK.house(Texts.rooms(2) + Texts.way(1, 1) + "smoke 1;", 4);
+        least.seed(DRAWS_ZERO);
+        CHECK.is("smoke 1", least.chance(1), 1);
         CHECK.is("without turns never", CHECK.house(apart(0), 5).back(0), -1);
         CHECK.is("without dear it is long", CHECK.house(apart(0), 5).dear(0, 1), 18);
     }
@@ -323,6 +334,37 @@ public final class EdgeHouseTextTest {
         CHECK.same("a house behind a house", x, fresh);
         CHECK.is("undo()", x.undo(), false);
         CHECK.is("status(4)", x.status(4), 1);
+    }
+
+    /** Nothing of an earlier house shows, whether it was larger, the same or at fault. */
+    private static void houseBehindHouses() {
+        FireDrill x = new FireDrill();
+        String other = MANY + "turns all;dear 7;hears 0;signs 9;smoke 100;";
+        String plain = Texts.rooms(3) + Texts.way(2, 1) + Texts.parts(0, 3) + Texts.onLawn(0, 1) + Texts.clerk(2, 2, 0, 1, 0);
+        for (int round = 0; round < 2; round++) {
+            CHECK.is("house(), the largest", take(x, other), 36);
+            for (int stair = 0; stair < 10; stair++) {
+                x.shut(stair, 1);
+            }
+            x.post(0, 9);
+            CHECK.is("house() at fault", take(x, other + "x"), -1);
+            CHECK.is("house(), a lesser one", take(x, plain), 10);
+            CHECK.is("fault(0)", x.fault(0), 0);
+            FireDrill fresh = CHECK.house(plain, 10);
+            if (round == 1) {
+                x.image();
+                fresh.image();
+                CHECK.same("a house behind a larger one", x, fresh);
+            }
+            CHECK.is("back(0)", x.back(0), -1);
+            CHECK.is("dear(0, 1)", x.dear(0, 1), 18);
+            CHECK.is("signs()", x.signs(), 3);
+            CHECK.is("chance(9)", x.chance(9), 0);
+            CHECK.is("has(6)", x.has(6), 27);
+            x.shut(0, 1);
+            CHECK.is("house(), the same", take(x, plain), 10);
+            CHECK.is("far(2)", x.far(2), 2);
+        }
     }
 
     private static void houseLeavesTheSeed() {
