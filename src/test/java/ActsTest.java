@@ -105,7 +105,7 @@ public final class ActsTest {
 
         // Signed 9998 times: once more counts, then it stays; that they signed is still told.
         FireDrill y = CHECK.house("room l;part p post 0;clerk x in l of p pace 1 bag 0;clerk y in l of p pace 1 bag 0;", 4);
-        Check.tape(y, image(0, 0, 0, 39, 14));
+        Check.tape(y, Texts.image(0, 0, 0, 39, 14));
         CHECK.is("on()", y.on(), true);
         CHECK.is("signed(0, 1)", y.signed(0, 1), 9998);
         CHECK.is("later(5)", y.later(5), 9999);
@@ -113,16 +113,6 @@ public final class ActsTest {
         CHECK.is("signed(0, 1)", y.signed(0, 1), 9999);
         CHECK.is("clerk(0, 4)", y.clerk(0, 4), 9999);
         CHECK.is("has(6)", y.has(6), 9999);
-    }
-
-    private static int[] image(int... bytes) {
-        int[] all = java.util.Arrays.copyOf(bytes, bytes.length + 1);
-        int c = 107;
-        for (int b : bytes) {
-            c = (3 * c + b) % 251;
-        }
-        all[bytes.length] = c;
-        return all;
     }
 
     /** The seed's own rule, told again in whole numbers of any size. */

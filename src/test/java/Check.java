@@ -34,6 +34,11 @@ final class Check {
         return x;
     }
 
+    /** The text is a house; each of its statements ends in one ; and there is no other. */
+    FireDrill made(String text) {
+        return house(text, (int) text.chars().filter(c -> c == ';').count());
+    }
+
     void houseFault(String text, int fault, int place) {
         FireDrill x = new FireDrill();
         tape(x, text);
@@ -41,6 +46,11 @@ final class Check {
         is("fault(0) of " + text, x.fault(0), fault);
         is("fault(1) of " + text, x.fault(1), place);
         is("status(1) of " + text, x.status(1), 1);
+    }
+
+    /** The fault of the text behind the head, its place told from there on. */
+    void behind(String head, String text, int fault, int place) {
+        houseFault(head + text, fault, head.length() + place);
     }
 
     void answer(FireDrill x, String question, long due) {

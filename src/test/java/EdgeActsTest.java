@@ -36,14 +36,10 @@ public final class EdgeActsTest {
         CHECK.finish();
     }
 
-    private static FireDrill made(String text) {
-        return CHECK.house(text, (int) text.chars().filter(c -> c == ';').count());
-    }
-
     // 29: "A SECTION gets a POST (0 .. 20): true; false, refused (2), when it has it, or there are none such."
 
     private static void postFromZeroToTwenty() {
-        FireDrill x = made(Texts.parts(7, 7, 7, 7, 7));
+        FireDrill x = CHECK.made(Texts.parts(7, 7, 7, 7, 7));
         for (int post = 0; post <= 20; post++) {
             int section = post % 5;
             boolean has = x.section(section, 0) == post;
@@ -51,7 +47,7 @@ public final class EdgeActsTest {
             CHECK.is("section(" + section + ", 0)", x.section(section, 0), post);
         }
         CHECK.is("status(2)", x.status(2), 0);
-        FireDrill y = made(Texts.parts(7, 8));
+        FireDrill y = CHECK.made(Texts.parts(7, 8));
         CHECK.is("post(1, 0)", y.post(1, 0), true);
         CHECK.is("section(0, 0): the other stays", y.section(0, 0), 7);
         CHECK.is("has(8)", y.has(8), 1);
@@ -62,7 +58,7 @@ public final class EdgeActsTest {
         CHECK.refused("post(1, 3): it has it now", Texts::used, 2, x -> x.post(1, 3) ? 1 : 0, 0);
         FireDrill x = Texts.used();
         CHECK.is("post(1, 2): it had it at first", x.post(1, 2), true);
-        FireDrill y = made(Texts.parts(0, 20));
+        FireDrill y = CHECK.made(Texts.parts(0, 20));
         CHECK.is("post(0, 20): another one has it", y.post(0, 20), true);
         CHECK.is("post(0, 20) again", y.post(0, 20), false);
         CHECK.is("post(1, 20)", y.post(1, 20), false);
@@ -77,14 +73,14 @@ public final class EdgeActsTest {
         for (int section : sections) {
             CHECK.refused("post(" + section + ", 5)", Texts::used, 2, x -> x.post(section, 5) ? 1 : 0, 0);
         }
-        CHECK.is("post(5, 1) of five", made(Texts.parts(0, 0, 0, 0, 0)).post(5, 1), false);
-        CHECK.is("post(4, 1) of five", made(Texts.parts(0, 0, 0, 0, 0)).post(4, 1), true);
+        CHECK.is("post(5, 1) of five", CHECK.made(Texts.parts(0, 0, 0, 0, 0)).post(5, 1), false);
+        CHECK.is("post(4, 1) of five", CHECK.made(Texts.parts(0, 0, 0, 0, 0)).post(4, 1), true);
     }
 
     // 30: "A STAIR is SHUT (on 1), or no more (0): true; false, refused (2), when it is so already, there is none such, or for others."
 
     private static void shutAndNoMore() {
-        FireDrill x = made(Texts.rooms(8) + Texts.stairs(10));
+        FireDrill x = CHECK.made(Texts.rooms(8) + Texts.stairs(10));
         for (int stair = 0; stair < 10; stair++) {
             CHECK.is("shut(" + stair + ", 1)", x.shut(stair, 1), true);
             CHECK.is("stair(" + stair + ", 3)", x.stair(stair, 3), 1);
@@ -129,7 +125,7 @@ public final class EdgeActsTest {
 
     private static void drillsFromOneToThirty() {
         for (int n = 1; n <= 30; n++) {
-            FireDrill x = made(Texts.rooms(1) + Texts.parts(0) + Texts.onLawn(0, 0, 0));
+            FireDrill x = CHECK.made(Texts.rooms(1) + Texts.parts(0) + Texts.onLawn(0, 0, 0));
             CHECK.is("drills(" + n + ")", x.drills(n), 3 * n);
             CHECK.is("has(4)", x.has(4), n);
             CHECK.is("has(6)", x.has(6), 3 * n);
@@ -138,11 +134,11 @@ public final class EdgeActsTest {
             CHECK.is("status(3)", x.status(3), 0);
         }
         // In them alone, not those ahead.
-        FireDrill y = made(pair());
+        FireDrill y = CHECK.made(pair());
         y.drills(30);
         CHECK.is("drills(2) behind thirty", y.drills(2), 2);
         // Each sees how many were ahead of it.
-        FireDrill z = made(pair() + "turns drill=1 or drill=3;");
+        FireDrill z = CHECK.made(pair() + "turns drill=1 or drill=3;");
         CHECK.is("drills(5): the first, third and fifth", z.drills(5), 3);
     }
 
@@ -154,7 +150,7 @@ public final class EdgeActsTest {
     }
 
     private static FireDrill at(int drills, int signed) {
-        FireDrill x = made(pair());
+        FireDrill x = CHECK.made(pair());
         Check.tape(x, Texts.image(drills / 256, drills % 256, 0, signed / 256, signed % 256));
         CHECK.is("on()", x.on(), true);
         return x;
@@ -205,19 +201,19 @@ public final class EdgeActsTest {
 
     private static void chanceFromOneToThirty() {
         for (int n = 1; n <= 30; n++) {
-            FireDrill x = made(oneStair(100));
+            FireDrill x = CHECK.made(oneStair(100));
             CHECK.is("chance(" + n + ") of smoke 100", x.chance(n), n);
             CHECK.is("has(4)", x.has(4), n);
             CHECK.is("has(6): the only stair was shut", x.has(6), 0);
             CHECK.is("has(8)", x.has(8), 1);
-            FireDrill y = made(oneStair(0));
+            FireDrill y = CHECK.made(oneStair(0));
             CHECK.is("chance(" + n + ") of smoke 0", y.chance(n), 0);
             CHECK.is("has(6)", y.has(6), n);
         }
     }
 
     private static void chanceByStairsAsWideAsTold() {
-        FireDrill x = made(Texts.rooms(2) + Texts.way(1, 1) + Texts.parts(0) + Texts.clerks(1, 0, 1, 1) + "signs 9;");
+        FireDrill x = CHECK.made(Texts.rooms(2) + Texts.way(1, 1) + Texts.parts(0) + Texts.clerks(1, 0, 1, 1) + "signs 9;");
         CHECK.is("chance(3)", x.chance(3), 0);
         CHECK.is("signed(0, 1): nine minutes", x.signed(0, 1), 3);
         CHECK.is("signed(0, 2): he waited one", x.signed(0, 2), 0);
@@ -243,7 +239,7 @@ public final class EdgeActsTest {
     // II: "a DRAW of 100: below smoke a DRAW of these"; "x (the seed) becomes (1103515245 x + 12345) mod 2 to the 31; floor(x / 64) mod m"
 
     private static int smokesOnce(int seed, int smoke) {
-        FireDrill x = made(oneStair(smoke));
+        FireDrill x = CHECK.made(oneStair(smoke));
         CHECK.is("seed(" + seed + ")", x.seed(seed), true);
         return x.chance(1);
     }
@@ -265,7 +261,7 @@ public final class EdgeActsTest {
         for (int n = 0; n <= 3; n++) {
             int next = new int[] {18, 99, 26, 80}[n];
             for (int more = 0; more <= 1; more++) {
-                FireDrill x = made(oneStair(0));
+                FireDrill x = CHECK.made(oneStair(0));
                 if (n > 0) {
                     CHECK.is("chance(" + n + ")", x.chance(n), 0);
                 }
@@ -275,10 +271,10 @@ public final class EdgeActsTest {
             }
         }
         // With smoke each drill draws twice: 18 and the stair, 26 and the stair, 16 and the stair.
-        FireDrill y = made(oneStair(26));
+        FireDrill y = CHECK.made(oneStair(26));
         CHECK.is("18 is below 26", y.chance(1), 1);
         CHECK.is("26 is not", y.chance(1), 0);
-        FireDrill z = made(oneStair(27));
+        FireDrill z = CHECK.made(oneStair(27));
         CHECK.is("18 and 26 and 16 are below 27", z.chance(3), 3);
     }
 
@@ -286,7 +282,7 @@ public final class EdgeActsTest {
 
     private static void noDrawWithoutStairs() {
         for (int more = 0; more <= 1; more++) {
-            FireDrill x = made(pair() + "smoke 100;");
+            FireDrill x = CHECK.made(pair() + "smoke 100;");
             CHECK.is("chance(30) without stairs", x.chance(30), 0);
             CHECK.is("has(6)", x.has(6), 30);
             Check.tape(x, oneStair(18 + more));
@@ -294,7 +290,7 @@ public final class EdgeActsTest {
             CHECK.is("the seed is still 1: smoke " + (18 + more), x.chance(1), more);
         }
         // Those that are all shut are there.
-        FireDrill y = made(oneStair(100));
+        FireDrill y = CHECK.made(oneStair(100));
         y.shut(0, 1);
         CHECK.is("chance(5) with all shut", y.chance(5), 5);
     }
@@ -308,7 +304,7 @@ public final class EdgeActsTest {
 
     private static void smokeShutsTheOneDrawn() {
         // The seed 1 draws of two, behind each draw of 100: 1, 0, 0.
-        FireDrill x = made(twoStairs());
+        FireDrill x = CHECK.made(twoStairs());
         int[][] signed = {{1, 0}, {1, 1}, {1, 2}};
         for (int k = 0; k < 3; k++) {
             CHECK.is("chance(1)", x.chance(1), 1);
@@ -317,13 +313,13 @@ public final class EdgeActsTest {
             CHECK.is("has(5): in it alone", x.has(5), 0);
             CHECK.is("out(1): this drill has no smoke", x.out(1), 0);
         }
-        FireDrill y = made(twoStairs());
+        FireDrill y = CHECK.made(twoStairs());
         CHECK.is("chance(3): the same at once", y.chance(3), 3);
         CHECK.is("signed(0, 1)", y.signed(0, 1), 1);
         CHECK.is("signed(0, 2)", y.signed(0, 2), 2);
         CHECK.is("signed(1, 2)", y.signed(1, 2), 0);
         // Of ten the seed 1 draws the last.
-        FireDrill ten = made(Texts.rooms(8) + Texts.way(7, 1) + "stair rh to ra wide 1;stair rg to ra wide 1;stair rf to ra wide 1;"
+        FireDrill ten = CHECK.made(Texts.rooms(8) + Texts.way(7, 1) + "stair rh to ra wide 1;stair rg to ra wide 1;stair rf to ra wide 1;"
             + Texts.parts(0) + Texts.clerks(1, 0, 5) + "smoke 100;signs 9;");
         CHECK.is("meets(0, 1) without", ten.meets(0, 1), 9);
         CHECK.is("chance(1)", ten.chance(1), 1);
@@ -332,7 +328,7 @@ public final class EdgeActsTest {
     }
 
     private static void smokeOnAStairThatIsShut() {
-        FireDrill x = made(twoStairs());
+        FireDrill x = CHECK.made(twoStairs());
         x.shut(1, 1);
         CHECK.is("chance(1): it draws of all stairs", x.chance(1), 1);
         CHECK.is("signed(0, 1): the other one is open", x.signed(0, 1), 1);
@@ -345,7 +341,7 @@ public final class EdgeActsTest {
     // 33: "The latest ACT is undone (the seed stays): true; false, refused (4), when none can be."
 
     private static void undoEachAct() {
-        FireDrill x = made(Texts.SMALL);
+        FireDrill x = CHECK.made(Texts.SMALL);
         x.post(0, 20);
         x.shut(0, 1);
         x.drills(30);
@@ -361,12 +357,12 @@ public final class EdgeActsTest {
         CHECK.is("has(5)", x.has(5), 0);
         CHECK.is("section(0, 0)", x.section(0, 0), 20);
         CHECK.is("undo() of post", x.undo(), true);
-        CHECK.same("all undone", x, made(Texts.SMALL));
+        CHECK.same("all undone", x, CHECK.made(Texts.SMALL));
     }
 
     private static void undoOfNone() {
         CHECK.refused("undo() at first", FireDrill::new, 4, x -> x.undo() ? 1 : 0, 0);
-        CHECK.refused("undo() of a new house", () -> made(Texts.SMALL), 4, x -> x.undo() ? 1 : 0, 0);
+        CHECK.refused("undo() of a new house", () -> CHECK.made(Texts.SMALL), 4, x -> x.undo() ? 1 : 0, 0);
         FireDrill x = Texts.used();
         for (int k = 0; k < 4; k++) {
             CHECK.is("undo() " + k, x.undo(), true);
@@ -388,7 +384,7 @@ public final class EdgeActsTest {
 
     private static void undoTheLastTwenty() {
         for (int acts = 19; acts <= 22; acts++) {
-            FireDrill x = made(Texts.parts(0, 0));
+            FireDrill x = CHECK.made(Texts.parts(0, 0));
             for (int k = 1; k <= acts; k++) {
                 x.post(k % 2, k % 20 + 1);
             }
@@ -405,7 +401,7 @@ public final class EdgeActsTest {
     }
 
     private static void undoRoundAndRound() {
-        FireDrill x = made(Texts.parts(0));
+        FireDrill x = CHECK.made(Texts.parts(0));
         int[] past = new int[400];
         int count = 0;
         int open = 0;
@@ -435,8 +431,8 @@ public final class EdgeActsTest {
 
     private static void undoLeavesTheSeed() {
         // The seed 1 draws 18 and 99, smoke 19: the second drill has none, undone or not.
-        FireDrill x = made(oneStair(19));
-        FireDrill twin = made(oneStair(19));
+        FireDrill x = CHECK.made(oneStair(19));
+        FireDrill twin = CHECK.made(oneStair(19));
         CHECK.is("chance(1)", x.chance(1), 1);
         CHECK.is("undo()", x.undo(), true);
         CHECK.is("chance(1) of the twin", twin.chance(1), 1);
@@ -451,7 +447,7 @@ public final class EdgeActsTest {
     private static void seedFromZeroOn() {
         int[] seeds = {0, 1, 2, 63, 64, 1 << 30, MOST - 1, MOST};
         for (int seed : seeds) {
-            FireDrill x = made(oneStair(50));
+            FireDrill x = CHECK.made(oneStair(50));
             CHECK.is("seed(" + seed + ")", x.seed(seed), true);
             CHECK.is("status(5)", x.status(5), 0);
         }
@@ -461,8 +457,8 @@ public final class EdgeActsTest {
         int[] seeds = {-1, -2, LEAST + 1, LEAST};
         for (int seed : seeds) {
             CHECK.refused("seed(" + seed + ")", Texts::used, 5, x -> x.seed(seed) ? 1 : 0, 0);
-            FireDrill x = made(oneStair(92));
-            FireDrill y = made(oneStair(93));
+            FireDrill x = CHECK.made(oneStair(92));
+            FireDrill y = CHECK.made(oneStair(93));
             x.seed(0);
             y.seed(0);
             CHECK.is("seed(" + seed + ")", x.seed(seed), false);
@@ -473,12 +469,12 @@ public final class EdgeActsTest {
     }
 
     private static void seedIsOneAtFirst() {
-        CHECK.is("smoke 18", made(oneStair(18)).chance(1), 0);
-        CHECK.is("smoke 19", made(oneStair(19)).chance(1), 1);
+        CHECK.is("smoke 18", CHECK.made(oneStair(18)).chance(1), 0);
+        CHECK.is("smoke 19", CHECK.made(oneStair(19)).chance(1), 1);
     }
 
     private static void seedIsNoAct() {
-        FireDrill x = made(oneStair(50));
+        FireDrill x = CHECK.made(oneStair(50));
         x.post(0, 5);
         x.seed(9);
         CHECK.is("has(8)", x.has(8), 1);

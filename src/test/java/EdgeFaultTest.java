@@ -33,10 +33,6 @@ public final class EdgeFaultTest {
         CHECK.finish();
     }
 
-    private static void behind(String head, String text, int fault, int place) {
-        CHECK.houseFault(head + text, fault, head.length() + place);
-    }
-
     // I: "NAMES: 1 to 6 letters"; 1 "where a NAME is asked, .. a 7th letter at itself"
 
     private static void namesOfOneToSixLetters() {
@@ -57,18 +53,18 @@ public final class EdgeFaultTest {
     private static void seventhLetterAtItself() {
         String[] names = {"abcdefg", "abcdefgh", "abcdefghijklmnopqrstuvwxyz", "minutes", "signedx", "zzzzzzz"};
         for (String name : names) {
-            behind("room ", name + ";", 1, 6);
-            behind("room ", name, 1, 6);
-            behind("part ", name + " post 1;", 1, 6);
-            behind("clerk ", name + " in", 1, 6);
-            behind("room a;stair ", name + " to a wide 1;", 1, 6);
-            behind("room a;stair a to ", name + " wide 1;", 1, 6);
-            behind("room a;clerk c in ", name + " of", 1, 6);
-            behind("room a;part p post 0;clerk c in a of ", name + " pace", 1, 6);
+            CHECK.behind("room ", name + ";", 1, 6);
+            CHECK.behind("room ", name, 1, 6);
+            CHECK.behind("part ", name + " post 1;", 1, 6);
+            CHECK.behind("clerk ", name + " in", 1, 6);
+            CHECK.behind("room a;stair ", name + " to a wide 1;", 1, 6);
+            CHECK.behind("room a;stair a to ", name + " wide 1;", 1, 6);
+            CHECK.behind("room a;clerk c in ", name + " of", 1, 6);
+            CHECK.behind("room a;part p post 0;clerk c in a of ", name + " pace", 1, 6);
         }
         // Also where its first six letters are a name that is there already, or none.
-        behind("room abcdef;room ", "abcdefg;", 1, 6);
-        behind("room abcdef;stair ", "abcdefg to", 1, 6);
+        CHECK.behind("room abcdef;room ", "abcdefg;", 1, 6);
+        CHECK.behind("room abcdef;stair ", "abcdefg to", 1, 6);
         CHECK.houseFault("room abcdef;room abcdef;", 3, 17);
     }
 
@@ -77,7 +73,7 @@ public final class EdgeFaultTest {
         CHECK.houseFault("room a abcdefgh;", 1, 7);
         CHECK.houseFault("hears abcdefgh;", 1, 6);
         CHECK.houseFault("turns abcdefgh;", 1, 6);
-        behind(Texts.ROOMS, "stair a abcdefgh b", 1, 8);
+        CHECK.behind(Texts.ROOMS, "stair a abcdefgh b", 1, 8);
     }
 
     // I: "no OWN WORD"; 1 "where a NAME is asked, an OWN WORD so"
@@ -85,13 +81,13 @@ public final class EdgeFaultTest {
     private static void ownWordsAreNoNames() {
         CHECK.is("own words", OWN.length, 31);
         for (String word : OWN) {
-            behind("room ", word + ";", 1, 0);
-            behind("part ", word + " post 1;", 1, 0);
-            behind("clerk ", word + " in a", 1, 0);
-            behind("room a;stair ", word + " to a", 1, 0);
-            behind("room a;stair a to ", word + " wide 1;", 1, 0);
-            behind("room a;clerk c in ", word + " of", 1, 0);
-            behind("room a;part p post 0;clerk c in a of ", word + " pace", 1, 0);
+            CHECK.behind("room ", word + ";", 1, 0);
+            CHECK.behind("part ", word + " post 1;", 1, 0);
+            CHECK.behind("clerk ", word + " in a", 1, 0);
+            CHECK.behind("room a;stair ", word + " to a", 1, 0);
+            CHECK.behind("room a;stair a to ", word + " wide 1;", 1, 0);
+            CHECK.behind("room a;clerk c in ", word + " of", 1, 0);
+            CHECK.behind("room a;part p post 0;clerk c in a of ", word + " pace", 1, 0);
         }
     }
 
@@ -135,8 +131,8 @@ public final class EdgeFaultTest {
         String head = "room l;part s post 0;";
         for (String first : given) {
             for (String second : heads) {
-                behind(head + first + second, "n", 3, 0);
-                behind(head + first + second, "  n;", 3, 2);
+                CHECK.behind(head + first + second, "n", 3, 0);
+                CHECK.behind(head + first + second, "  n;", 3, 2);
                 CHECK.house(head + first + "hears 1;", 4);
             }
             CHECK.house(head + first + "room nn;part m post 0;clerk o in l of s pace 1 bag 0;", 6);
@@ -158,15 +154,15 @@ public final class EdgeFaultTest {
         String head = "room a;room b;part p post 0;clerk c in a of p pace 1 bag 0;";
         String[] none = {"p", "c", "x", "aa"};
         for (String name : none) {
-            behind(head + "stair ", name + " to a wide 1;", 3, 0);
-            behind(head + "stair a to ", name + " wide 1;", 3, 0);
-            behind(head + "clerk d in ", name + " of p", 3, 0);
+            CHECK.behind(head + "stair ", name + " to a wide 1;", 3, 0);
+            CHECK.behind(head + "stair a to ", name + " wide 1;", 3, 0);
+            CHECK.behind(head + "clerk d in ", name + " of p", 3, 0);
         }
         String[] noSection = {"a", "b", "c", "x", "d"};
         for (String name : noSection) {
-            behind(head + "clerk d in a of ", name + " pace 1 bag 0;", 3, 0);
+            CHECK.behind(head + "clerk d in a of ", name + " pace 1 bag 0;", 3, 0);
         }
-        behind(head + "clerk d in ", "d of p pace 1 bag 0;", 3, 0);
+        CHECK.behind(head + "clerk d in ", "d of p pace 1 bag 0;", 3, 0);
     }
 
     // I: "N (1 to 4 digits)"; 1 "where a number is asked, a 5th digit at itself"
@@ -184,9 +180,9 @@ public final class EdgeFaultTest {
         String[] heads = {"hears ", "signs ", "smoke ", "dear ", "dear 1+", "dear (", "dear min(1,", "turns ", "turns 1<", "part p post ",
             "room a;room b;stair a to b wide ", Texts.PARTS + "clerk c in a of p pace ", Texts.PARTS + "clerk c in a of p pace 1 bag "};
         for (String head : heads) {
-            behind(head, "00000", 1, 4);
-            behind(head, "12345;", 1, 4);
-            behind(head, "123456789", 1, 4);
+            CHECK.behind(head, "00000", 1, 4);
+            CHECK.behind(head, "12345;", 1, 4);
+            CHECK.behind(head, "123456789", 1, 4);
         }
         // Where no number is asked it is whole, at its first byte.
         CHECK.houseFault("12345;", 1, 0);
@@ -217,7 +213,7 @@ public final class EdgeFaultTest {
         CHECK.houseFault("5room a;", 1, 0);
         CHECK.houseFault("part p post1;", 1, 11);
         CHECK.houseFault("part p5 post 1;", 1, 6);
-        behind(Texts.PARTS, "clerk c in a of p pace 1bag 0;", 1, 24);
+        CHECK.behind(Texts.PARTS, "clerk c in a of p pace 1bag 0;", 1, 24);
         CHECK.houseFault("turns 1<2and all;", 1, 9);
         CHECK.houseFault("turns 1<2or all;", 1, 9);
         CHECK.houseFault("dear 2bag;", 1, 6);
@@ -250,10 +246,10 @@ public final class EdgeFaultTest {
         CHECK.houseFault("roo", 1, 0);
         CHECK.houseFault("roomx a;", 1, 0);
         CHECK.houseFault("r", 1, 0);
-        behind(Texts.ROOMS, "stair a t", 1, 8);
-        behind(Texts.ROOMS, "stair a tox b", 1, 8);
-        behind(Texts.ROOMS, "stair a to b wid", 1, 13);
-        behind(Texts.ROOMS, "stair a to b widen 1;", 1, 13);
+        CHECK.behind(Texts.ROOMS, "stair a t", 1, 8);
+        CHECK.behind(Texts.ROOMS, "stair a tox b", 1, 8);
+        CHECK.behind(Texts.ROOMS, "stair a to b wid", 1, 13);
+        CHECK.behind(Texts.ROOMS, "stair a to b widen 1;", 1, 13);
         CHECK.houseFault("turns al", 1, 6);
         CHECK.houseFault("turns all an", 1, 10);
         CHECK.houseFault("turns all o", 1, 10);
@@ -278,7 +274,7 @@ public final class EdgeFaultTest {
             for (String word : statement.split(" ")) {
                 for (int k = 0; isOwn(word) && k < word.length(); k++) {
                     String other = word.substring(0, k) + "z" + word.substring(k + 1);
-                    behind(HEAD, statement.substring(0, at) + other + statement.substring(at + word.length()), 1, at);
+                    CHECK.behind(HEAD, statement.substring(0, at) + other + statement.substring(at + word.length()), 1, at);
                 }
                 at += word.length() + 1;
             }
@@ -295,21 +291,21 @@ public final class EdgeFaultTest {
                 String rest = statement.substring(Math.min(statement.length(), at + word.length() + 1));
                 boolean right = word.equals("min");
                 if (!right) {
-                    behind(HEAD, statement.substring(0, at) + rest, 1, at);
+                    CHECK.behind(HEAD, statement.substring(0, at) + rest, 1, at);
                 }
                 at += word.length() + 1;
             }
         }
         CHECK.houseFault("dear (1,2);", 1, 7);
         // Nor may a word go with what it brings.
-        behind(HEAD, "stair a wide 1;", 1, 8);
-        behind(HEAD, "stair a to b;", 1, 12);
-        behind(HEAD, "part q;", 1, 6);
-        behind(HEAD, "clerk c of p pace 1 bag 1;", 1, 8);
-        behind(HEAD, "clerk c in a pace 1 bag 1;", 1, 13);
-        behind(HEAD, "clerk c in a of p bag 1;", 1, 18);
-        behind(HEAD, "clerk c in a of p pace 1;", 1, 24);
-        behind(HEAD, "clerk c;", 1, 7);
+        CHECK.behind(HEAD, "stair a wide 1;", 1, 8);
+        CHECK.behind(HEAD, "stair a to b;", 1, 12);
+        CHECK.behind(HEAD, "part q;", 1, 6);
+        CHECK.behind(HEAD, "clerk c of p pace 1 bag 1;", 1, 8);
+        CHECK.behind(HEAD, "clerk c in a pace 1 bag 1;", 1, 13);
+        CHECK.behind(HEAD, "clerk c in a of p bag 1;", 1, 18);
+        CHECK.behind(HEAD, "clerk c in a of p pace 1;", 1, 24);
+        CHECK.behind(HEAD, "clerk c;", 1, 7);
     }
 
     private static void endsTooSoonAtItsLength() {
@@ -344,7 +340,7 @@ public final class EdgeFaultTest {
                     boolean due = words[k].equals(sign);
                     String text = statement.substring(0, at) + sign + statement.substring(at + words[k].length());
                     if (!due) {
-                        behind(HEAD, text, 1, at);
+                        CHECK.behind(HEAD, text, 1, at);
                     }
                 }
                 at += words[k].length() + 1;
@@ -365,8 +361,8 @@ public final class EdgeFaultTest {
                 if (n <= 6) {
                     CHECK.house("turns " + text, 1);
                 } else {
-                    behind("turns ", text, 4, 6 * opens[k].length());
-                    behind("turns ", opens[k].repeat(n), 4, 6 * opens[k].length());
+                    CHECK.behind("turns ", text, 4, 6 * opens[k].length());
+                    CHECK.behind("turns ", opens[k].repeat(n), 4, 6 * opens[k].length());
                 }
             }
         }
@@ -419,7 +415,7 @@ public final class EdgeFaultTest {
             for (int second = 0; second < 5; second++) {
                 // A fault of each kind, and behind it another one: the first is told.
                 String head = "room a;turns all;";
-                behind(head, texts[first] + ";" + texts[second], first + 1, places[first]);
+                CHECK.behind(head, texts[first] + ";" + texts[second], first + 1, places[first]);
             }
         }
         CHECK.houseFault("room a;stair x to x wide 9", 3, 13);

@@ -31,10 +31,6 @@ public final class EdgeHouseTextTest {
         CHECK.finish();
     }
 
-    private static void behind(String head, String text, int fault, int place) {
-        CHECK.houseFault(head + text, fault, head.length() + place);
-    }
-
     // I: "{ STATEMENT ; } (80 at most)"; 5 "an 81st STATEMENT (whatever stands there), at its first byte"
 
     private static void noStatements() {
@@ -57,21 +53,21 @@ public final class EdgeHouseTextTest {
         CHECK.house("hears 1;".repeat(80), 80);
         CHECK.house("smoke 1;".repeat(80), 80);
         CHECK.house(MANY + "smoke 1;".repeat(49), 80);
-        behind("signs 1;".repeat(80), "signs 1;", 5, 0);
-        behind(MANY + "smoke 1;".repeat(49), "\n smoke 1;", 5, 2);
+        CHECK.behind("signs 1;".repeat(80), "signs 1;", 5, 0);
+        CHECK.behind(MANY + "smoke 1;".repeat(49), "\n smoke 1;", 5, 2);
     }
 
     private static void an81stWhateverStandsThere() {
         String[] rests = {"hears 1;", "room a;", "nonsense", "x", "5", "99999", ";", ";;", "(", "#", "\t", "\r", "\u0000", "\u00ff", "A", "roo"};
         for (String rest : rests) {
-            behind("hears 1;".repeat(80), rest, 5, 0);
-            behind("hears 1;".repeat(80), " \n" + rest, 5, 2);
+            CHECK.behind("hears 1;".repeat(80), rest, 5, 0);
+            CHECK.behind("hears 1;".repeat(80), " \n" + rest, 5, 2);
         }
         // The 80th is no such one: there its own fault is told.
-        behind("hears 1;".repeat(79), "nonsense", 1, 0);
-        behind("hears 1;".repeat(79), ";", 1, 0);
-        behind("hears 1;".repeat(79), "smoke 101;hears 1;hears 1;", 2, 6);
-        behind("hears 1;".repeat(79), "hears 1", 1, 7);
+        CHECK.behind("hears 1;".repeat(79), "nonsense", 1, 0);
+        CHECK.behind("hears 1;".repeat(79), ";", 1, 0);
+        CHECK.behind("hears 1;".repeat(79), "smoke 101;hears 1;hears 1;", 2, 6);
+        CHECK.behind("hears 1;".repeat(79), "hears 1", 1, 7);
     }
 
     // I: "8 ROOMS", "10 STAIRS", "5 SECTIONS", "8 CLERKS"; 5 "one too many of a kind .. at its first byte"
@@ -82,9 +78,9 @@ public final class EdgeHouseTextTest {
         CHECK.is("has(0) of eight", x.has(0), 8);
         CHECK.is("letter(0, 7, 1)", x.letter(0, 7, 1), 8);
         CHECK.is("letter(0, 8, 0)", x.letter(0, 8, 0), -1);
-        behind(Texts.rooms(8), "room ri;", 5, 0);
-        behind(Texts.rooms(8), "\nroom ri;", 5, 1);
-        behind(Texts.rooms(8) + "hears 1;", " room ri;", 5, 1);
+        CHECK.behind(Texts.rooms(8), "room ri;", 5, 0);
+        CHECK.behind(Texts.rooms(8), "\nroom ri;", 5, 1);
+        CHECK.behind(Texts.rooms(8) + "hears 1;", " room ri;", 5, 1);
     }
 
     private static void tenStairs() {
@@ -96,8 +92,8 @@ public final class EdgeHouseTextTest {
         CHECK.is("stair(10, 0)", x.stair(10, 0), -1);
         CHECK.is("shut(9, 1)", x.shut(9, 1), true);
         CHECK.is("shut(10, 1)", x.shut(10, 1), false);
-        behind(Texts.rooms(8) + Texts.stairs(10), "stair rb to rf wide 1;", 5, 0);
-        behind(Texts.rooms(8) + Texts.stairs(10), "  stair rb to rf wide 1;", 5, 2);
+        CHECK.behind(Texts.rooms(8) + Texts.stairs(10), "stair rb to rf wide 1;", 5, 0);
+        CHECK.behind(Texts.rooms(8) + Texts.stairs(10), "  stair rb to rf wide 1;", 5, 2);
     }
 
     private static void fiveSections() {
@@ -108,7 +104,7 @@ public final class EdgeHouseTextTest {
         CHECK.is("section(5, 0)", x.section(5, 0), -1);
         CHECK.is("posts(4)", x.posts(4), 4);
         CHECK.is("posts(5)", x.posts(5), -1);
-        behind(Texts.parts(1, 2, 3, 4, 5), "part pf post 6;", 5, 0);
+        CHECK.behind(Texts.parts(1, 2, 3, 4, 5), "part pf post 6;", 5, 0);
     }
 
     private static void eightClerks() {
@@ -122,7 +118,7 @@ public final class EdgeHouseTextTest {
         CHECK.is("out(8)", x.out(8), -2);
         CHECK.is("drills(30): 28 pairs", x.drills(30), 840);
         CHECK.is("signed(6, 7)", x.signed(6, 7), 30);
-        behind(eight, "clerk ci in ra of pa pace 1 bag 1;", 5, 0);
+        CHECK.behind(eight, "clerk ci in ra of pa pace 1 bag 1;", 5, 0);
     }
 
     // I: "turns TEST, dear SUM (one each)"; 5 "(a second turns, dear, too)"
@@ -130,27 +126,27 @@ public final class EdgeHouseTextTest {
     private static void oneTurnsAndOneDear() {
         CHECK.house("turns all;dear 1;", 2);
         CHECK.house("dear 1;turns all;", 2);
-        behind("turns all;", "turns all;", 5, 0);
-        behind("turns all;dear 1;", " turns all;", 5, 1);
-        behind("dear 1;", "dear 1;", 5, 0);
-        behind("dear 1;turns all;hears 1;", "\ndear 1;", 5, 1);
+        CHECK.behind("turns all;", "turns all;", 5, 0);
+        CHECK.behind("turns all;dear 1;", " turns all;", 5, 1);
+        CHECK.behind("dear 1;", "dear 1;", 5, 0);
+        CHECK.behind("dear 1;turns all;hears 1;", "\ndear 1;", 5, 1);
     }
 
     private static void oneTooManyWhateverFollows() {
         String[] rests = {"", " ", ";", " ra;", " room;", " abcdefg;", " 5;", "#", "5"};
         for (String rest : rests) {
-            behind(Texts.rooms(8), "room" + rest, 5, 0);
-            behind(MANY, "stair" + rest, 5, 0);
-            behind(MANY, "part" + rest, 5, 0);
-            behind(MANY, "clerk" + rest, 5, 0);
-            behind("turns all;", "turns" + rest, 5, 0);
-            behind("dear 1;", "dear" + rest, 5, 0);
+            CHECK.behind(Texts.rooms(8), "room" + rest, 5, 0);
+            CHECK.behind(MANY, "stair" + rest, 5, 0);
+            CHECK.behind(MANY, "part" + rest, 5, 0);
+            CHECK.behind(MANY, "clerk" + rest, 5, 0);
+            CHECK.behind("turns all;", "turns" + rest, 5, 0);
+            CHECK.behind("dear 1;", "dear" + rest, 5, 0);
         }
         // A longer word is another one.
-        behind(Texts.rooms(8), "rooms a;", 1, 0);
-        behind(Texts.rooms(8), "roo a;", 1, 0);
+        CHECK.behind(Texts.rooms(8), "rooms a;", 1, 0);
+        CHECK.behind(Texts.rooms(8), "roo a;", 1, 0);
         // A statement that is at fault is not told: the fault is its own.
-        behind(Texts.rooms(7), "room ra;room rh;room ri;", 3, 5);
+        CHECK.behind(Texts.rooms(7), "room ra;room rh;room ri;", 3, 5);
     }
 
     // I: "the first one is the LAWN"
@@ -170,13 +166,13 @@ public final class EdgeHouseTextTest {
         FireDrill x = CHECK.house(three + "stair a to b wide 1;stair c to a wide 2;stair b to c wide 3;", 6);
         CHECK.is("stair(1, 0): as told", x.stair(1, 0), 2);
         CHECK.is("stair(1, 1): as told", x.stair(1, 1), 0);
-        behind(three, "stair a to a wide 1;", 3, 11);
-        behind(three, "stair c  to\nc wide 1;", 3, 12);
-        behind(three + "stair a to b wide 1;", "stair a to b wide 1;", 3, 11);
-        behind(three + "stair a to b wide 1;", "stair b to a wide 1;", 3, 11);
-        behind(three + "stair c to b wide 1;stair a to b wide 1;", "stair b to c wide 1;", 3, 11);
-        behind(three + "stair a to b wide 1;", "stair a to b", 3, 11);
-        behind(three, "stair a to", 1, 10);
+        CHECK.behind(three, "stair a to a wide 1;", 3, 11);
+        CHECK.behind(three, "stair c  to\nc wide 1;", 3, 12);
+        CHECK.behind(three + "stair a to b wide 1;", "stair a to b wide 1;", 3, 11);
+        CHECK.behind(three + "stair a to b wide 1;", "stair b to a wide 1;", 3, 11);
+        CHECK.behind(three + "stair c to b wide 1;stair a to b wide 1;", "stair b to c wide 1;", 3, 11);
+        CHECK.behind(three + "stair a to b wide 1;", "stair a to b", 3, 11);
+        CHECK.behind(three, "stair a to", 1, 10);
     }
 
     // I: "1 .. 4", "0 .. 20", "1 .. 3", "0 .. 9", "0 .. 20", "1 .. 9", "0 .. 100"; 2 "a number that can't be, at it"
@@ -200,23 +196,23 @@ public final class EdgeHouseTextTest {
         number(head, "0000", rest, least == 0 ? statements : -1);
         number(head, "1000", rest, -1);
         number(head, "9999", rest, -1);
-        behind(head, "-1" + rest, 1, 0);
-        behind(head, "+1" + rest, 1, 0);
-        behind(head, "00001" + rest, 1, 4);
-        behind(head, "10000" + rest, 1, 4);
-        behind(head, "999999" + rest, 1, 4);
-        behind(head, rest.trim(), 1, 0);
-        behind(head, "", 1, 0);
+        CHECK.behind(head, "-1" + rest, 1, 0);
+        CHECK.behind(head, "+1" + rest, 1, 0);
+        CHECK.behind(head, "00001" + rest, 1, 4);
+        CHECK.behind(head, "10000" + rest, 1, 4);
+        CHECK.behind(head, "999999" + rest, 1, 4);
+        CHECK.behind(head, rest.trim(), 1, 0);
+        CHECK.behind(head, "", 1, 0);
         // The number is at fault ahead of what follows it.
-        behind(head, "9999", 2, 0);
-        behind(head, "9999x", 2, 0);
+        CHECK.behind(head, "9999", 2, 0);
+        CHECK.behind(head, "9999x", 2, 0);
     }
 
     private static void number(String head, String number, String rest, int statements) {
         if (statements >= 0) {
             CHECK.house(head + number + rest, statements);
         } else {
-            behind(head, number + rest, 2, 0);
+            CHECK.behind(head, number + rest, 2, 0);
         }
     }
 

@@ -27,10 +27,6 @@ public final class EdgeSeenTest {
         CHECK.finish();
     }
 
-    private static FireDrill made(String text) {
-        return CHECK.house(text, (int) text.chars().filter(c -> c == ';').count());
-    }
-
     private static int see(FireDrill x, int... bytes) {
         Check.tape(x, bytes);
         return x.see();
@@ -38,7 +34,7 @@ public final class EdgeSeenTest {
 
     /** Three rooms, each with its own stair to the lawn, and a clerk in each; a fourth clerk on the lawn. */
     private static FireDrill star() {
-        return made(Texts.rooms(4) + Texts.stairs(3) + Texts.parts(0) + Texts.clerks(1, 1, 2, 3, 0));
+        return CHECK.made(Texts.rooms(4) + Texts.stairs(3) + Texts.parts(0) + Texts.clerks(1, 1, 2, 3, 0));
     }
 
     // 26: "The tape (it goes) tells what is SEEN, 1 to 16 rows of two bytes: CLERK, OUT: how many rows"
@@ -109,8 +105,8 @@ public final class EdgeSeenTest {
 
     private static void seeWithoutClerks() {
         CHECK.is("see() of no house", see(new FireDrill(), 0, 0), -1);
-        CHECK.is("see() of a house without clerks", see(made(Texts.rooms(2)), 0, 0), -1);
-        FireDrill most = made(Texts.rooms(1) + Texts.parts(0) + Texts.clerks(1, 0, 0, 0, 0, 0, 0, 0, 0));
+        CHECK.is("see() of a house without clerks", see(CHECK.made(Texts.rooms(2)), 0, 0), -1);
+        FireDrill most = CHECK.made(Texts.rooms(1) + Texts.parts(0) + Texts.clerks(1, 0, 0, 0, 0, 0, 0, 0, 0));
         CHECK.is("see() of the eighth clerk", see(most, 7, 255), 1);
         CHECK.is("see() of a ninth", see(most, 8, 255), -1);
     }
@@ -147,9 +143,9 @@ public final class EdgeSeenTest {
         FireDrill x = star();
         CHECK.is("shuts(0) with nothing seen", x.shuts(0), 7);
         CHECK.is("shuts(1) with nothing seen", x.shuts(1), 1);
-        FireDrill most = made(Texts.rooms(8) + Texts.stairs(10));
+        FireDrill most = CHECK.made(Texts.rooms(8) + Texts.stairs(10));
         CHECK.is("shuts(0) of ten", most.shuts(0), 1023);
-        FireDrill bare = made(Texts.rooms(8));
+        FireDrill bare = CHECK.made(Texts.rooms(8));
         CHECK.is("shuts(0) of none", bare.shuts(0), 0);
         CHECK.is("shuts(1) of none", bare.shuts(1), 1);
     }
@@ -185,7 +181,7 @@ public final class EdgeSeenTest {
         see(x, 0, 99, 1, 99);
         CHECK.is("shuts(0): never two at once", x.shuts(0), 0);
         CHECK.is("shuts(1)", x.shuts(1), 0);
-        FireDrill most = made(Texts.rooms(8) + Texts.way(7, 1) + "stair rh to ra wide 1;stair rg to ra wide 1;stair rf to ra wide 1;"
+        FireDrill most = CHECK.made(Texts.rooms(8) + Texts.way(7, 1) + "stair rh to ra wide 1;stair rg to ra wide 1;stair rf to ra wide 1;"
             + Texts.parts(0) + Texts.clerks(1, 5));
         see(most, 0, 0);
         CHECK.is("shuts(0): all but the tenth", most.shuts(0), 511);
@@ -206,7 +202,7 @@ public final class EdgeSeenTest {
         see(x, 0, 255);
         CHECK.is("shuts(0): who is inside is not out ahead of all", x.shuts(0), 0);
         // OUT 8, the last minute: the seventh of seven by a way of three.
-        FireDrill late = made(Texts.rooms(4) + Texts.way(3, 1) + Texts.parts(0) + Texts.clerks(1, 3, 3, 3, 3, 3, 3, 3, 3));
+        FireDrill late = CHECK.made(Texts.rooms(4) + Texts.way(3, 1) + Texts.parts(0) + Texts.clerks(1, 3, 3, 3, 3, 3, 3, 3, 3));
         see(late, 6, 8);
         CHECK.is("shuts(1) of OUT 8", late.shuts(1), 1);
         CHECK.is("shuts(0) of OUT 8", late.shuts(0), 0);
@@ -226,7 +222,7 @@ public final class EdgeSeenTest {
     }
 
     private static void seenByThisDrill() {
-        FireDrill x = made(Texts.rooms(2) + Texts.way(1, 1) + Texts.parts(0) + Texts.clerks(1, 1, 1));
+        FireDrill x = CHECK.made(Texts.rooms(2) + Texts.way(1, 1) + Texts.parts(0) + Texts.clerks(1, 1, 1));
         see(x, 1, 1);
         CHECK.is("shuts(1)", x.shuts(1), 1);
         CHECK.is("shuts(0)", x.shuts(0), 0);
@@ -267,24 +263,24 @@ public final class EdgeSeenTest {
         see(x, 0, 0, 1, 0, 2, 0);
         whomIs("one left: the first", x, 0, 1);
         // Of a way who is above tells most.
-        FireDrill y = made(Texts.rooms(4) + Texts.way(3, 1) + Texts.parts(0) + Texts.clerks(1, 1, 2, 3));
+        FireDrill y = CHECK.made(Texts.rooms(4) + Texts.way(3, 1) + Texts.parts(0) + Texts.clerks(1, 1, 2, 3));
         // OUT of the third: none 2, any 99: three are left; of the second two and two.
         whomIs("a way", y, 1, 2);
     }
 
     private static void whomCountsThatNoneWas() {
-        FireDrill x = made(Texts.rooms(2) + Texts.way(1, 1) + Texts.parts(0) + Texts.clerks(1, 0, 1));
+        FireDrill x = CHECK.made(Texts.rooms(2) + Texts.way(1, 1) + Texts.parts(0) + Texts.clerks(1, 0, 1));
         // Left are stair 0 and none: the second tells them apart.
         whomIs("stair or none", x, 1, 1);
         see(x, 0, 255);
         whomIs("stair or none by one seen", x, 1, 1);
-        FireDrill lawn = made(Texts.rooms(2) + Texts.way(1, 1) + Texts.parts(0) + Texts.clerks(1, 0));
+        FireDrill lawn = CHECK.made(Texts.rooms(2) + Texts.way(1, 1) + Texts.parts(0) + Texts.clerks(1, 0));
         whomIs("none tells them apart", lawn, 0, 2);
         see(x, 1, 99);
         whomIs("the stair alone", x, 0, 1);
-        FireDrill bare = made(Texts.rooms(1) + Texts.parts(0) + Texts.clerks(1, 0));
+        FireDrill bare = CHECK.made(Texts.rooms(1) + Texts.parts(0) + Texts.clerks(1, 0));
         whomIs("none alone", bare, 0, 1);
-        FireDrill most = made(Texts.rooms(8) + Texts.stairs(10) + Texts.parts(0) + Texts.clerks(1, 0));
+        FireDrill most = CHECK.made(Texts.rooms(8) + Texts.stairs(10) + Texts.parts(0) + Texts.clerks(1, 0));
         whomIs("all ten and none", most, 0, 11);
     }
 
@@ -296,7 +292,7 @@ public final class EdgeSeenTest {
         whomIs("without any", x, -1, -1);
         see(x, 3, 255);
         whomIs("with all", x, 0, 3);
-        whomIs("without clerks", made(Texts.rooms(2) + Texts.way(1, 1)), -1, -1);
+        whomIs("without clerks", CHECK.made(Texts.rooms(2) + Texts.way(1, 1)), -1, -1);
         whomIs("without a house", new FireDrill(), -1, -1);
     }
 

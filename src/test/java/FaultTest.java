@@ -19,11 +19,6 @@ public final class FaultTest {
         CHECK.finish();
     }
 
-    /** The text behind the head, with the place told from there on. */
-    private static void behind(String head, String text, int fault, int place) {
-        CHECK.houseFault(head + text, fault, head.length() + place);
-    }
-
     private static void wrongWords() {
         CHECK.houseFault("x;", 1, 0);
         CHECK.houseFault(";", 1, 0);
@@ -41,16 +36,16 @@ public final class FaultTest {
         CHECK.houseFault("room a,room b;", 1, 6);
         CHECK.houseFault("first all;", 1, 0);
         CHECK.houseFault("room \u00e9;", 1, 5);
-        behind(ROOMS, "stair a too b wide 1;", 1, 8);
-        behind(ROOMS, "stair a b wide 1;", 1, 8);
-        behind(ROOMS, "stair a to b 1;", 1, 13);
-        behind(ROOMS, "stair a to b wide 1 1;", 1, 20);
-        behind(PARTS, "part q 1;", 1, 7);
-        behind(PARTS, "clerk c of p;", 1, 8);
-        behind(PARTS, "clerk c in a in p;", 1, 13);
-        behind(PARTS, "clerk c in a of p bag 1;", 1, 18);
-        behind(PARTS, "clerk c in a of p pace 1;", 1, 24);
-        behind(PARTS, "clerk c in a of p pace 1 bag 1 pace 1;", 1, 31);
+        CHECK.behind(ROOMS, "stair a too b wide 1;", 1, 8);
+        CHECK.behind(ROOMS, "stair a b wide 1;", 1, 8);
+        CHECK.behind(ROOMS, "stair a to b 1;", 1, 13);
+        CHECK.behind(ROOMS, "stair a to b wide 1 1;", 1, 20);
+        CHECK.behind(PARTS, "part q 1;", 1, 7);
+        CHECK.behind(PARTS, "clerk c of p;", 1, 8);
+        CHECK.behind(PARTS, "clerk c in a in p;", 1, 13);
+        CHECK.behind(PARTS, "clerk c in a of p bag 1;", 1, 18);
+        CHECK.behind(PARTS, "clerk c in a of p pace 1;", 1, 24);
+        CHECK.behind(PARTS, "clerk c in a of p pace 1 bag 1 pace 1;", 1, 31);
     }
 
     private static void namesAsked() {
@@ -58,8 +53,8 @@ public final class FaultTest {
             + " other long number out signed meets or and not all min max").split(" ");
         for (String word : own) {
             CHECK.houseFault("room " + word + ";", 1, 5);
-            behind(ROOMS, "stair a to " + word, 1, 11);
-            behind(PARTS, "clerk " + word, 1, 6);
+            CHECK.behind(ROOMS, "stair a to " + word, 1, 11);
+            CHECK.behind(PARTS, "clerk " + word, 1, 6);
         }
         CHECK.houseFault("room 5;", 1, 5);
         CHECK.houseFault("room ;", 1, 5);
@@ -67,19 +62,19 @@ public final class FaultTest {
         CHECK.houseFault("room abcdefghijk;", 1, 11);
         CHECK.houseFault("room minutes;", 1, 11);
         CHECK.houseFault("part abcdefg post 1;", 1, 11);
-        behind(ROOMS, "stair abcdefg to b", 1, 12);
-        behind(ROOMS, "stair a to abcdefg", 1, 17);
-        behind(PARTS, "clerk c in a of abcdefg", 1, 22);
+        CHECK.behind(ROOMS, "stair abcdefg to b", 1, 12);
+        CHECK.behind(ROOMS, "stair a to abcdefg", 1, 17);
+        CHECK.behind(PARTS, "clerk c in a of abcdefg", 1, 22);
         CHECK.houseFault("room abcdef;room abcdef;", 3, 17);
     }
 
     private static void numbersAsked() {
-        behind(ROOMS, "stair a to b wide x;", 1, 18);
-        behind(ROOMS, "stair a to b wide 00001;", 1, 22);
-        behind(ROOMS, "stair a to b wide 99999;", 1, 22);
-        behind(ROOMS, "stair a to b wide 999999999999;", 1, 22);
-        behind(ROOMS, "stair a to b wide -1;", 1, 18);
-        behind(ROOMS, "stair a to b wide 1.5;", 1, 19);
+        CHECK.behind(ROOMS, "stair a to b wide x;", 1, 18);
+        CHECK.behind(ROOMS, "stair a to b wide 00001;", 1, 22);
+        CHECK.behind(ROOMS, "stair a to b wide 99999;", 1, 22);
+        CHECK.behind(ROOMS, "stair a to b wide 999999999999;", 1, 22);
+        CHECK.behind(ROOMS, "stair a to b wide -1;", 1, 18);
+        CHECK.behind(ROOMS, "stair a to b wide 1.5;", 1, 19);
         CHECK.houseFault("hears 12345;", 1, 10);
         CHECK.houseFault("turns 12345<1;", 1, 10);
         CHECK.houseFault("dear 1+12345;", 1, 11);
@@ -112,8 +107,8 @@ public final class FaultTest {
         CHECK.houseFault("room5;", 1, 4);
         CHECK.houseFault("hears3;", 1, 5);
         CHECK.houseFault("hears99;", 1, 5);
-        behind(ROOMS, "stair a to b wide1;", 1, 17);
-        behind(PARTS, "clerk c in a of p pace 1bag 1;", 1, 24);
+        CHECK.behind(ROOMS, "stair a to b wide1;", 1, 17);
+        CHECK.behind(PARTS, "clerk c in a of p pace 1bag 1;", 1, 24);
         CHECK.houseFault("turns bag>4and all;", 1, 11);
         CHECK.houseFault("turns bag5>4;", 1, 9);
         CHECK.house("turns(bag)>4 and[all]and not(1)<2;", 1);
@@ -164,13 +159,13 @@ public final class FaultTest {
     }
 
     private static void numbersThatCannotBe() {
-        behind(ROOMS, "stair a to b wide 0;", 2, 18);
-        behind(ROOMS, "stair a to b wide 5;", 2, 18);
-        behind(ROOMS, "stair a to b wide 9999;", 2, 18);
+        CHECK.behind(ROOMS, "stair a to b wide 0;", 2, 18);
+        CHECK.behind(ROOMS, "stair a to b wide 5;", 2, 18);
+        CHECK.behind(ROOMS, "stair a to b wide 9999;", 2, 18);
         CHECK.houseFault("part p post 21;", 2, 12);
-        behind(PARTS, "clerk c in a of p pace 0 bag 1;", 2, 23);
-        behind(PARTS, "clerk c in a of p pace 4 bag 1;", 2, 23);
-        behind(PARTS, "clerk c in a of p pace 3 bag 10;", 2, 29);
+        CHECK.behind(PARTS, "clerk c in a of p pace 0 bag 1;", 2, 23);
+        CHECK.behind(PARTS, "clerk c in a of p pace 4 bag 1;", 2, 23);
+        CHECK.behind(PARTS, "clerk c in a of p pace 3 bag 10;", 2, 29);
         CHECK.houseFault("hears 21;", 2, 6);
         CHECK.houseFault("signs 0;", 2, 6);
         CHECK.houseFault("signs 10;", 2, 6);
@@ -183,30 +178,30 @@ public final class FaultTest {
     }
 
     private static void names() {
-        behind(ROOMS, "room a;", 3, 5);
-        behind(PARTS, "part a post 1;", 3, 5);
-        behind(PARTS, "room p;", 3, 5);
-        behind(PARTS, "part p post 1;", 3, 5);
-        behind(PARTS, "clerk a in a", 3, 6);
-        behind(PARTS, "clerk p in a", 3, 6);
+        CHECK.behind(ROOMS, "room a;", 3, 5);
+        CHECK.behind(PARTS, "part a post 1;", 3, 5);
+        CHECK.behind(PARTS, "room p;", 3, 5);
+        CHECK.behind(PARTS, "part p post 1;", 3, 5);
+        CHECK.behind(PARTS, "clerk a in a", 3, 6);
+        CHECK.behind(PARTS, "clerk p in a", 3, 6);
         String clerk = PARTS + "clerk c in a of p pace 1 bag 1;";
-        behind(clerk, "clerk c in a", 3, 6);
-        behind(clerk, "room c;", 3, 5);
-        behind(clerk, "part c post 1;", 3, 5);
-        behind(clerk, "stair c to a wide 1;", 3, 6);
-        behind(clerk, "clerk d in c of p", 3, 11);
-        behind(clerk, "clerk d in a of c", 3, 16);
-        behind(PARTS, "stair p to a wide 1;", 3, 6);
-        behind(PARTS, "clerk d in p of p", 3, 11);
-        behind(PARTS, "clerk d in a of a", 3, 16);
-        behind(PARTS, "clerk d in d of p", 3, 11);
+        CHECK.behind(clerk, "clerk c in a", 3, 6);
+        CHECK.behind(clerk, "room c;", 3, 5);
+        CHECK.behind(clerk, "part c post 1;", 3, 5);
+        CHECK.behind(clerk, "stair c to a wide 1;", 3, 6);
+        CHECK.behind(clerk, "clerk d in c of p", 3, 11);
+        CHECK.behind(clerk, "clerk d in a of c", 3, 16);
+        CHECK.behind(PARTS, "stair p to a wide 1;", 3, 6);
+        CHECK.behind(PARTS, "clerk d in p of p", 3, 11);
+        CHECK.behind(PARTS, "clerk d in a of a", 3, 16);
+        CHECK.behind(PARTS, "clerk d in d of p", 3, 11);
         CHECK.houseFault("stair a to b wide 1;room a;room b;", 3, 6);
         CHECK.houseFault("clerk c in a", 3, 11);
-        behind(ROOMS, "stair a to a wide 1;", 3, 11);
-        behind(ROOMS, "stair a to c wide 1;", 3, 11);
+        CHECK.behind(ROOMS, "stair a to a wide 1;", 3, 11);
+        CHECK.behind(ROOMS, "stair a to c wide 1;", 3, 11);
         String stair = ROOMS + "stair a to b wide 1;";
-        behind(stair, "stair a to b wide 2;", 3, 11);
-        behind(stair, "stair b to a wide 2;", 3, 11);
+        CHECK.behind(stair, "stair a to b wide 2;", 3, 11);
+        CHECK.behind(stair, "stair b to a wide 2;", 3, 11);
         CHECK.house(ROOMS + "room ab;room ba;room aa;", 5);
     }
 
@@ -242,30 +237,30 @@ public final class FaultTest {
 
     private static void tooMany() {
         String rooms = "room a;room b;room c;room d;room e;room f;room g;room h;";
-        behind(rooms, "room i;", 5, 0);
-        behind(rooms, " room", 5, 1);
-        behind(rooms, "rooms", 1, 0);
+        CHECK.behind(rooms, "room i;", 5, 0);
+        CHECK.behind(rooms, " room", 5, 1);
+        CHECK.behind(rooms, "rooms", 1, 0);
         String stairs = rooms + "stair a to b wide 1;stair a to c wide 1;stair a to d wide 1;stair a to e wide 1;"
             + "stair a to f wide 1;stair a to g wide 1;stair a to h wide 1;stair b to c wide 1;stair b to d wide 1;"
             + "stair b to e wide 1;";
-        behind(stairs, "\nstair b to f wide 1;", 5, 1);
+        CHECK.behind(stairs, "\nstair b to f wide 1;", 5, 1);
         String parts = "room r;part a post 1;part b post 1;part c post 1;part d post 1;part e post 1;";
-        behind(parts, "part f post 1;", 5, 0);
+        CHECK.behind(parts, "part f post 1;", 5, 0);
         StringBuilder clerks = new StringBuilder(parts);
         for (int k = 0; k < 8; k++) {
             clerks.append("clerk c").append((char) ('a' + k)).append(" in r of a pace 1 bag 1;");
         }
         CHECK.house(clerks.toString(), 14);
-        behind(clerks.toString(), "clerk x in r of a pace 1 bag 1;", 5, 0);
-        behind("turns all;", "turns all;", 5, 0);
-        behind("dear 1;turns all;", "dear 1;", 5, 0);
+        CHECK.behind(clerks.toString(), "clerk x in r of a pace 1 bag 1;", 5, 0);
+        CHECK.behind("turns all;", "turns all;", 5, 0);
+        CHECK.behind("dear 1;turns all;", "dear 1;", 5, 0);
         String eighty = "hears 1;".repeat(80);
-        behind(eighty, "hears 1;", 5, 0);
-        behind(eighty, " \n#", 5, 2);
-        behind(eighty, ";", 5, 0);
-        behind(eighty, "5", 5, 0);
-        behind(eighty, "nonsense", 5, 0);
-        behind("hears 1;".repeat(79), "nonsense", 1, 0);
+        CHECK.behind(eighty, "hears 1;", 5, 0);
+        CHECK.behind(eighty, " \n#", 5, 2);
+        CHECK.behind(eighty, ";", 5, 0);
+        CHECK.behind(eighty, "5", 5, 0);
+        CHECK.behind(eighty, "nonsense", 5, 0);
+        CHECK.behind("hears 1;".repeat(79), "nonsense", 1, 0);
     }
 
     private static void theFirst() {

@@ -19,16 +19,6 @@ public final class ImageTest {
         return CHECK.house(HOUSE, 8);
     }
 
-    private static int[] withCheck(int... bytes) {
-        int[] all = Arrays.copyOf(bytes, bytes.length + 1);
-        int c = 107;
-        for (int b : bytes) {
-            c = (3 * c + b) % 251;
-        }
-        all[bytes.length] = c;
-        return all;
-    }
-
     private static void imageIs(FireDrill x, int... due) {
         CHECK.is("image()", x.image(), due.length);
         for (int k = 0; k < due.length; k++) {
@@ -42,7 +32,7 @@ public final class ImageTest {
         imageIs(new FireDrill(), 0, 0, 210);
         FireDrill x = house();
         CHECK.is("octet(0) ahead of any image()", x.octet(0), -1);
-        imageIs(x, withCheck(0, 0, 3, 12, 0, 0, 0, 0, 0, 0, 0));
+        imageIs(x, Texts.image(0, 0, 3, 12, 0, 0, 0, 0, 0, 0, 0));
         for (int k = 0; k < 10; k++) {
             x.drills(30);
         }
@@ -52,10 +42,10 @@ public final class ImageTest {
         CHECK.is("octet(2): of the latest image()", x.octet(2), 3);
         CHECK.is("octet(4)", x.octet(4), 0);
         // 301 drills; 0 and 1 signed 300 times, 0 and 2 once.
-        imageIs(x, withCheck(1, 45, 3, 6, 1, 1, 44, 0, 1, 0, 0));
+        imageIs(x, Texts.image(1, 45, 3, 6, 1, 1, 44, 0, 1, 0, 0));
         x.undo();
         CHECK.is("octet(1): the image stays", x.octet(1), 45);
-        imageIs(x, withCheck(1, 44, 3, 6, 1, 1, 44, 0, 0, 0, 0));
+        imageIs(x, Texts.image(1, 44, 3, 6, 1, 1, 44, 0, 0, 0, 0));
     }
 
     private static boolean on(FireDrill x, int... bytes) {
@@ -68,7 +58,7 @@ public final class ImageTest {
         x.post(0, 4);
         Check.tape(x, 0, 255);
         x.see();
-        CHECK.is("on()", on(x, withCheck(1, 45, 20, 6, 1, 1, 44, 39, 15, 0, 7)), true);
+        CHECK.is("on()", on(x, Texts.image(1, 45, 20, 6, 1, 1, 44, 39, 15, 0, 7)), true);
         CHECK.is("has(4)", x.has(4), 301);
         CHECK.is("section(0, 0)", x.section(0, 0), 20);
         CHECK.is("section(1, 0)", x.section(1, 0), 6);
@@ -82,10 +72,10 @@ public final class ImageTest {
         CHECK.is("status(5)", x.status(5), 0);
         CHECK.is("feed: the tape went", x.feed(0, 0, 0, 0, 0), 20);
         x.end(0);
-        CHECK.is("on() at the most", on(x, withCheck(3, 231, 20, 20, 1, 39, 15, 39, 15, 39, 15)), true);
+        CHECK.is("on() at the most", on(x, Texts.image(3, 231, 20, 20, 1, 39, 15, 39, 15, 39, 15)), true);
         CHECK.is("has(4)", x.has(4), 999);
         CHECK.is("has(6)", x.has(6), 29997);
-        CHECK.is("on() at the least", on(x, withCheck(0, 0, 0, 0, 0, 0, 0, 0, 0, 0, 0)), true);
+        CHECK.is("on() at the least", on(x, Texts.image(0, 0, 0, 0, 0, 0, 0, 0, 0, 0, 0)), true);
         CHECK.is("has(6)", x.has(6), 0);
         CHECK.is("on() of a new object", on(new FireDrill(), 0, 0, 210), true);
     }
@@ -93,17 +83,17 @@ public final class ImageTest {
     private static void onRefuses() {
         FireDrill x = house();
         x.drills(2);
-        int[] good = withCheck(0, 0, 0, 0, 0, 0, 0, 0, 0, 0, 0);
+        int[] good = Texts.image(0, 0, 0, 0, 0, 0, 0, 0, 0, 0, 0);
         int[] wrongCheck = good.clone();
         wrongCheck[11] = (wrongCheck[11] + 1) % 251;
         int[][] bad = {
             {}, {0}, {0, 0, 210}, wrongCheck, Arrays.copyOf(good, 11), Arrays.copyOf(good, 13),
-            withCheck(3, 232, 0, 0, 0, 0, 0, 0, 0, 0, 0), withCheck(4, 0, 0, 0, 0, 0, 0, 0, 0, 0, 0),
-            withCheck(0, 0, 21, 0, 0, 0, 0, 0, 0, 0, 0), withCheck(0, 0, 0, 21, 0, 0, 0, 0, 0, 0, 0),
-            withCheck(0, 0, 0, 0, 2, 0, 0, 0, 0, 0, 0), withCheck(0, 0, 0, 0, 255, 0, 0, 0, 0, 0, 0),
-            withCheck(0, 0, 0, 0, 0, 39, 16, 0, 0, 0, 0), withCheck(0, 0, 0, 0, 0, 0, 0, 39, 16, 0, 0),
-            withCheck(0, 0, 0, 0, 0, 0, 0, 0, 0, 39, 16), withCheck(0, 0, 0, 0, 0, 0, 0, 0, 0, 255, 255),
-            withCheck(0, 0, 0, 0, 0, 0, 0, 0, 0, 0, 0, 0, 0),
+            Texts.image(3, 232, 0, 0, 0, 0, 0, 0, 0, 0, 0), Texts.image(4, 0, 0, 0, 0, 0, 0, 0, 0, 0, 0),
+            Texts.image(0, 0, 21, 0, 0, 0, 0, 0, 0, 0, 0), Texts.image(0, 0, 0, 21, 0, 0, 0, 0, 0, 0, 0),
+            Texts.image(0, 0, 0, 0, 2, 0, 0, 0, 0, 0, 0), Texts.image(0, 0, 0, 0, 255, 0, 0, 0, 0, 0, 0),
+            Texts.image(0, 0, 0, 0, 0, 39, 16, 0, 0, 0, 0), Texts.image(0, 0, 0, 0, 0, 0, 0, 39, 16, 0, 0),
+            Texts.image(0, 0, 0, 0, 0, 0, 0, 0, 0, 39, 16), Texts.image(0, 0, 0, 0, 0, 0, 0, 0, 0, 255, 255),
+            Texts.image(0, 0, 0, 0, 0, 0, 0, 0, 0, 0, 0, 0, 0),
         };
         for (int k = 0; k < bad.length; k++) {
             CHECK.is("on() of bad " + k, on(x, bad[k]), false);
