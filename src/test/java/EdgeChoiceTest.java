@@ -279,8 +279,10 @@ public final class EdgeChoiceTest {
 
     private static void wordsOfDear() {
         String two = Texts.rooms(2) + Texts.way(1, 2) + Texts.parts(0) + Texts.clerk(0, 1, 0, 2, 7) + Texts.clerk(1, 1, 0, 3, 9);
-        String[] sums = {"pace", "bag", "other", "long", "drill", "pace*100", "bag*other", "pace*10+other", "bag*100-other"};
-        long[] due = {5, 16, 16, 18, 0, 500, 126, 50 + 16, 1600 - 16};
+        // Of two words in one sum, whose they are shows: his own pace with his own bag, and with the other's.
+        String[] sums = {"pace", "bag", "other", "long", "drill", "pace*100", "bag*other", "pace*10+other", "bag*100-other", "pace*bag",
+            "pace*other", "pace*long*bag"};
+        long[] due = {5, 16, 16, 18, 0, 500, 126, 50 + 16, 1600 - 16, 14 + 27, 18 + 21, 9 * (14 + 27)};
         for (int k = 0; k < sums.length; k++) {
             CHECK.is("dear " + sums[k], CHECK.made(two + "dear " + sums[k] + ";").dear(0, 1), due[k]);
         }
